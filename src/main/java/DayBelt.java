@@ -469,7 +469,7 @@ public final class DayBelt {
         return within(v, 0, LANES - 1);
     }
 
-    /** What v leaves over by n, not below 0 where v is; the one place that divides by what may change. */
+    /** What v leaves over by n, not below 0 even if v is; the one place that divides by what may change. */
     private static int leftOver(int v, int n) {
         return n > 0 ? Math.floorMod(v, n) : 0;
     }
@@ -641,7 +641,7 @@ public final class DayBelt {
                 return false;
             }
             int place = block.placeOf(one.car, steps);
-            return place == 0 && one.kind.outBelow || place == block.high && one.kind.outAbove;
+            return (place == 0 && one.kind.outBelow) || (place == block.high && one.kind.outAbove);
         }
 
         int load(int car) {
@@ -802,10 +802,6 @@ public final class DayBelt {
             next = 0;
         }
 
-        void rewind() {
-            next = 0;
-        }
-
         boolean ends() {
             while (next < length && letters[next] == BLANK) {
                 next++;
@@ -848,7 +844,6 @@ public final class DayBelt {
 
         /** If not, the tape's next letter is the faulty one. */
         boolean reads(Tape tape) {
-            tape.rewind();
             return readsHigh(tape) && tape.takes(';') && readsDays(tape) && tape.takes(';') && readsPeople(tape);
         }
 
@@ -925,11 +920,11 @@ public final class DayBelt {
         private long set;
 
         static long spot(int floor, int day) {
-            return 1L << floor * WEEK + day;
+            return 1L << (floor * WEEK + day);
         }
 
         private static long seat(int car) {
-            return 1L << SPOTS + car;
+            return 1L << (SPOTS + car);
         }
 
         /** By its number, 7 to a floor; NONE if there is no spot in the set. */
@@ -961,7 +956,7 @@ public final class DayBelt {
             for (int place = 0; place < block.cars(); place++) {
                 int car = block.carIn(place, steps);
                 int floor = block.floorAt(place);
-                boolean stands = (set & WHOLE_WEEK << floor * WEEK) != 0;
+                boolean stands = (set & (WHOLE_WEEK << (floor * WEEK))) != 0;
                 if (stands && has(moves, block.sideAt(place) + 1)) {
                     to |= seat(car);
                 }

@@ -125,6 +125,22 @@ public final class PromisesTest {
         due("nothing to be undone", x.count(5), 0);
         due("undo()", x.undo(), NONE);
         due("steps stay", x.count(1), 2);
+
+        // what one was who is there no more is forgotten
+        x = block("3;012345;p100");
+        x.rule(1, 2);
+        x.image();
+        x.person(PLAIN, 9, 0, 0);
+        x.steps(2);
+        x.in(1, 0);
+        x.restore();
+        due("nobody rides", x.count(6), 0);
+        due("nothing is borne", x.car(4, 4), 0);
+        due("nobody is in it", x.car(4, 5), 0);
+        due("lunches of one", x.count(7), 0);
+        due("a new one in its place", x.person(PLAIN, 8, 1, 1), 1);
+        due("in no car", x.of(1, 3), NONE);
+        due("without lunch", x.of(1, 5), 0);
     }
 
     private static void of() {
@@ -249,6 +265,8 @@ public final class PromisesTest {
         fault("   ", 3);
         fault("1", 0);
         fault("7", 0);
+        fault(";0123;p110", 0);
+        fault("2 0123;p110", 2);
         fault("  x", 2);
         fault("3", 1);
         fault("3  ", 3);
@@ -330,6 +348,16 @@ public final class PromisesTest {
         x.steps(60);
         due("undoable, eight", x.count(5), 8);
         due("STEPS", x.count(1), 64);
+        x = block("2;0123;p110,p100,p100");
+        x.rule(1, 2);
+        x.steps(2);
+        due("the first one has fewest", x.count(8), 0);
+        due("all", x.count(7), 2);
+        x.in(0, 1);
+        x.steps(1);
+        x.out(0);
+        x.steps(3);
+        due("each had one at least", x.count(8), 2);
         due("what -1", x.count(-1), BAD);
         due("what 9", x.count(9), BAD);
     }
@@ -362,6 +390,11 @@ public final class PromisesTest {
         due("another one", x.in(1, 0), FULL);
         x.rule(0, 10);
         due("with more LIMIT", x.in(1, 0), 0);
+        x = block("3;012345;p200,s200,h100,k100,a200");
+        x.rule(0, 1);
+        for (int p = 0; p < 5; p++) {
+            due("kind " + p + " above LIMIT", x.in(p, 0), p == PORTER ? 0 : FULL);
+        }
     }
 
     private static void out() {
@@ -664,6 +697,16 @@ public final class PromisesTest {
         due("whatever LOADS are", x.soonest(1, 2, 0, 0), 2);
         due("nothing is changed", x.of(0, 3), 0);
         due("nothing is changed", x.count(1), 0);
+        x = block("3;012345;p300");
+        x.steps(4);
+        // car 2 is below, on side 0
+        due("from now on", x.soonest(0, 1, 2, 0), 1);
+        due("from now on", x.soonest(0, 1, 2, 1), 1);
+        due("car 0 comes in two steps", x.soonest(0, 1, 0, 0), 3);
+        // cars 0 and 5 are of one day: by staying one step it would only be later
+        x = block("3;611116;p300");
+        due("the sooner car", x.soonest(0, 2, 6, 0), 2);
+        due("staying is too late", x.soonest(0, 2, 6, 1), 1);
     }
 
     private static void soonestOfShyOnes() {
@@ -683,6 +726,27 @@ public final class PromisesTest {
         due("aunt does best to wait for it", x.soonest(4, 1, 3, 1), 0);
         due("shy is turned out below", x.soonest(3, 0, 3, 0), 1);
         due("in on side 1", x.soonest(3, 0, 3, 1), 2);
+        // riding just ahead of a turn: who is turned out there need not get out, so staying is a way
+        x = block("3;012345;p106,s106,a106");
+        rideAll(x, 0, 2);
+        due("above, plain: out, in car 5, out", x.soonest(0, 2, 5, 0), 2);
+        due("above, shy", x.soonest(1, 2, 5, 0), 2);
+        due("above, plain gets out", x.soonest(0, 2, 5, 1), 3);
+        due("above, shy stays", x.soonest(1, 2, 5, 1), 0);
+        due("above, an aunt gets out", x.soonest(2, 2, 5, 1), 3);
+        x = block("3;012345;p116,s116,a116");
+        rideAll(x, 1, 1);
+        due("below, plain: out, in car 3, out", x.soonest(0, 0, 3, 0), 2);
+        due("below, plain gets out", x.soonest(0, 0, 3, 1), 3);
+        due("below, shy stays", x.soonest(1, 0, 3, 1), 0);
+        due("below, an aunt stays", x.soonest(2, 0, 3, 1), 0);
+    }
+
+    private static void rideAll(DayBelt x, int side, int n) {
+        for (int p = 0; p < x.count(0); p++) {
+            x.in(p, side);
+        }
+        x.steps(n);
     }
 
     private static void never() {
@@ -771,6 +835,10 @@ public final class PromisesTest {
         x = block("6;111111111101;p101");
         due("the last two", x.changed(0, 0, 0, 0), 1011);
         due("one step", x.changed(0, 0, 0, 1), 1);
+        x = block("3;500000;p300");
+        x.steps(1);
+        due("only car 0 is of that day", x.changed(0, 1, 5, 0), 5);
+        due("one step", x.changed(0, 1, 5, 1), 1);
     }
 
     private static void goes() {
@@ -950,6 +1018,7 @@ public final class PromisesTest {
         due("a refused film changes nothing", x.weighed(0, 0, 3, 1, 1), 0);
         x.sheet(0, 3, 24);
         due("24 of them", x.film(0, 0, 24, 0, 3, 0), 24);
+        due("one of them", x.film(0, 0, 1, 0, 3, 23), 1);
     }
 
     private static void sheet() {
@@ -968,8 +1037,10 @@ public final class PromisesTest {
         due("no item", x.item(0, 0, 0, 1), INDEX);
         due("n 24", x.sheet(0, 3, 24), 24);
         due("item 23", x.item(0, 3, 23, 5), 1);
+        due("item 0", x.item(0, 3, 0, 5), 1);
         due("a new row", x.sheet(0, 3, 24), 24);
         due("of zeros", x.weighed(0, 3, 23, 1, 0), 1);
+        due("of zeros", x.weighed(0, 3, 0, 1, 0), 1);
         due("a refused one", x.sheet(0, 0, -5), SIZE);
         due("leaves the old one", x.drop(0), 24);
     }
