@@ -869,12 +869,13 @@ public final class DayBelt {
 
         private boolean readsPeople(Tape tape) {
             scene.count = 0;
-            boolean more = true;
-            while (more && scene.count < MOST_PEOPLE) {
+            for (int p = 0; p < MOST_PEOPLE; p++) {
+                if (p > 0 && !tape.takes(',')) {
+                    break;
+                }
                 if (!readsPerson(tape)) {
                     return false;
                 }
-                more = scene.count < MOST_PEOPLE && tape.takes(',');
             }
             return tape.ends();
         }
@@ -1038,7 +1039,9 @@ public final class DayBelt {
             int cars = hasCarOf(day) ? block.cars() : 0;
             for (int k = 0; k < cars; k++) {
                 for (int l = k + 1; l < cars; l++) {
-                    n = fewestChanged(goal, best - 1, k, l);
+                    changeDays(k, l);
+                    n = fewestSteps(goal, best - 1);
+                    changeDays(k, l);
                     if (n != NONE) {
                         best = n;
                         pair = HUNDRED * k + l;
@@ -1055,16 +1058,6 @@ public final class DayBelt {
                 }
             }
             return false;
-        }
-
-        private int fewestChanged(long goal, int most, int k, int l) {
-            if (block.days[k] == block.days[l]) {
-                return NONE;
-            }
-            changeDays(k, l);
-            int n = fewestSteps(goal, most);
-            changeDays(k, l);
-            return n;
         }
 
         private void changeDays(int k, int l) {
