@@ -28,16 +28,16 @@ public final class EdgesOfDoingTest {
 
     // ---- 10 in
 
-    static void promise10PersonIsOneThatCame() {
+    static void promise10_in_PersonIsOneThatCame() {
         Twins.range("person", EdgesOfDoingTest::waiting, 0, 2, 4, 3, (x, v) -> x.in(v, 0));
         Twins.same("person 0 of none", DayBelt::new, BAD, x -> x.in(0, 0));
     }
 
-    static void promise10SideIs0Or1() {
+    static void promise10_in_SideIs0Or1() {
         Twins.range("side", EdgesOfDoingTest::waiting, 0, 2, 1, 1, (x, v) -> x.in(0, v));
     }
 
-    static void promise10TheCarThatIsThere() {
+    static void promise10_in_TheCarThatIsThere() {
         for (int high = 2; high <= 6; high++) {
             for (int floor = 0; floor < high; floor++) {
                 for (int side = 0; side < 2; side++) {
@@ -57,14 +57,14 @@ public final class EdgesOfDoingTest {
         }
     }
 
-    static void promise10NotInACar() {
+    static void promise10_in_NotInACar() {
         for (int side = 0; side < 2; side++) {
             int s = side;
             Twins.same("on side " + s, Belts::crowded, NOT, x -> x.in(0, s));
         }
     }
 
-    static void promise10JustLimitIsTakenOneMoreIsFull() {
+    static void promise10_in_JustLimitIsTakenOneMoreIsFull() {
         Twins.same("27 of 26", () -> loaded(26), FULL, x -> x.in(1, 0));
         due("27 of 27", loaded(27).in(1, 0), 0);
         due("the other side", loaded(26).in(1, 1), 5);
@@ -80,7 +80,7 @@ public final class EdgesOfDoingTest {
         return x;
     }
 
-    static void promise10OneAloneMayWeighLimit() {
+    static void promise10_in_OneAloneMayWeighLimit() {
         for (int limit = 1; limit <= 9; limit++) {
             int l = limit;
             DayBelt x = Belts.block("3;012345;p" + l + "00");
@@ -98,7 +98,7 @@ public final class EdgesOfDoingTest {
         return x;
     }
 
-    static void promise10APorterWhateverACarBears() {
+    static void promise10_in_APorterWhateverACarBears() {
         DayBelt x = Belts.block("3;012345;k900,k900,k900,k900,k900,k900");
         x.rule(0, 1);
         for (int p = 0; p < 6; p++) {
@@ -107,24 +107,24 @@ public final class EdgesOfDoingTest {
         due("LOAD", x.car(0, 4), 108);
     }
 
-    static void promise10BadAheadOfNotAndFull() {
+    static void promise10_in_BadAheadOfNotAndFull() {
         Twins.same("a side of one in a CAR", Belts::crowded, BAD, x -> x.in(0, 2));
         Twins.same("a side of one who is too heavy", () -> loaded(26), BAD, x -> x.in(1, -1));
     }
 
-    static void promise10NotAheadOfFull() {
+    static void promise10_in_NotAheadOfFull() {
         Twins.same("in a CAR above LIMIT", () -> loaded(1), NOT, x -> x.in(0, 0));
     }
 
     // ---- 11 out
 
-    static void promise11PersonIsOneThatCame() {
+    static void promise11_out_PersonIsOneThatCame() {
         Twins.range("person", Belts::crowded, 0, 0, 5, 0, (x, v) -> x.out(v));
         Twins.same("person 0 of none", DayBelt::new, BAD, x -> x.out(0));
         Twins.same("person -1 of none", DayBelt::new, BAD, x -> x.out(-1));
     }
 
-    static void promise11NotInNoCar() {
+    static void promise11_out_NotInNoCar() {
         for (int person = 0; person < 5; person++) {
             int p = person;
             Twins.same("person " + p, EdgesOfDoingTest::waiting, NOT, x -> x.out(p));
@@ -135,14 +135,14 @@ public final class EdgesOfDoingTest {
         due("again", x.out(0), NOT);
     }
 
-    static void promise11NotWhenTurnedOut() {
+    static void promise11_out_NotWhenTurnedOut() {
         DayBelt x = Belts.high(2, "s110");
         x.in(0, 0);
         x.steps(1);
         due("turned OUT already", x.out(0), NOT);
     }
 
-    static void promise11TheFloorPastWhichTheCarGoes() {
+    static void promise11_out_TheFloorPastWhichTheCarGoes() {
         for (int high = 2; high <= 6; high++) {
             for (int n = 1; n <= 2 * high; n++) {
                 DayBelt x = Belts.high(high, "p100");
@@ -156,7 +156,7 @@ public final class EdgesOfDoingTest {
 
     // ---- 12 steps
 
-    static void promise12From1To60() {
+    static void promise12_steps_From1To60() {
         Twins.range("n", Belts::crowded, 1, 63, 60, 63 - 2 - 16, (x, v) -> x.steps(v));
         DayBelt x = new DayBelt();
         x.steps(1);
@@ -165,7 +165,7 @@ public final class EdgesOfDoingTest {
         due("STEPS", x.count(1), 61);
     }
 
-    static void promise12To9999AndNotAbove() {
+    static void promise12_steps_To9999AndNotAbove() {
         for (int n = 1; n <= 60; n++) {
             DayBelt x = Belts.worn(Belts.MOST_STEPS - n);
             if (n < 60) {
@@ -178,19 +178,19 @@ public final class EdgesOfDoingTest {
         }
     }
 
-    static void promise12FullChangesNothing() {
+    static void promise12_steps_FullChangesNothing() {
         Twins.same("60 of 59", () -> Belts.worn(Belts.MOST_STEPS - 59), FULL, x -> x.steps(60));
         Twins.same("2 of 1", () -> Belts.worn(Belts.MOST_STEPS - 1), FULL, x -> x.steps(2));
         Twins.same("1 of 0", () -> Belts.worn(Belts.MOST_STEPS), FULL, x -> x.steps(1));
     }
 
-    static void promise12BadAheadOfFull() {
+    static void promise12_steps_BadAheadOfFull() {
         Twins.same("61", () -> Belts.worn(Belts.MOST_STEPS), BAD, x -> x.steps(61));
         Twins.same("0", () -> Belts.worn(Belts.MOST_STEPS), BAD, x -> x.steps(0));
         Twins.same("the greatest", () -> Belts.worn(Belts.MOST_STEPS), BAD, x -> x.steps(MAX));
     }
 
-    static void promise12WhoIsInCarsThen() {
+    static void promise12_steps_WhoIsInCarsThen() {
         DayBelt x = Belts.high(2, "p110,s110,a110,s100,a100");
         for (int p = 0; p < 3; p++) {
             x.in(p, 0);
@@ -205,7 +205,7 @@ public final class EdgesOfDoingTest {
         due("nobody is", new DayBelt().steps(60), 0);
     }
 
-    static void promise12UndoneAt9999() {
+    static void promise12_steps_UndoneAt9999() {
         DayBelt x = Belts.worn(Belts.MOST_STEPS);
         due("undo", x.undo(), 7);
         due("STEPS", x.count(1), Belts.MOST_STEPS - 1);
@@ -213,7 +213,7 @@ public final class EdgesOfDoingTest {
         due("one more", x.steps(1), FULL);
     }
 
-    static void promise12ABlockBeginsAnew() {
+    static void promise12_steps_ABlockBeginsAnew() {
         DayBelt x = Belts.worn(Belts.MOST_STEPS);
         Belts.take(x, "2;0123;p100");
         due("STEPS", x.steps(60), 0);
@@ -222,7 +222,7 @@ public final class EdgesOfDoingTest {
 
     // ---- 13 drift
 
-    static void promise13From1To60() {
+    static void promise13_drift_From1To60() {
         Twins.range("n", EdgesOfDoingTest::waiting, 1, 0, 60, 0, (x, v) -> x.drift(v));
         DayBelt x = new DayBelt();
         x.drift(1);
@@ -231,7 +231,7 @@ public final class EdgesOfDoingTest {
         due("STEPS", x.count(1), 61);
     }
 
-    static void promise13To9999AndNotAbove() {
+    static void promise13_drift_To9999AndNotAbove() {
         for (int n = 1; n <= 60; n += n == 1 ? 58 : 1) {
             DayBelt x = Belts.worn(Belts.MOST_STEPS - n);
             x.out(0);
@@ -246,7 +246,7 @@ public final class EdgesOfDoingTest {
     }
 
     /** Two ride: by a rest of 0 or 1 the belt would stand, and STEPS would stay; it counts as a step for all that. */
-    static void promise13FullByAllNEvenIfItWouldStand() {
+    static void promise13_drift_FullByAllNEvenIfItWouldStand() {
         int seed = Draws.leavingOver(0);
         Twins.same("1 of 0", () -> wornBySeed(Belts.MOST_STEPS, seed), FULL, x -> x.drift(1));
         Twins.same("60 of 59", () -> wornBySeed(Belts.MOST_STEPS - 59, seed), FULL, x -> x.drift(60));
@@ -261,12 +261,12 @@ public final class EdgesOfDoingTest {
         return x;
     }
 
-    static void promise13BadAheadOfFull() {
+    static void promise13_drift_BadAheadOfFull() {
         Twins.same("61", () -> Belts.worn(Belts.MOST_STEPS), BAD, x -> x.drift(61));
         Twins.same("0", () -> Belts.worn(Belts.MOST_STEPS), BAD, x -> x.drift(0));
     }
 
-    static void promise13HowOftenItStood() {
+    static void promise13_drift_HowOftenItStood() {
         for (int riders = 0; riders <= 6; riders++) {
             DayBelt x = Belts.high(2, "p100,p100,p100,p100,p100,p100");
             for (int p = 0; p < riders; p++) {
@@ -285,7 +285,7 @@ public final class EdgesOfDoingTest {
     }
 
     /** Who is turned out in a drift's step counts no more ahead of the next one. */
-    static void promise13HowManyAreInCarsAheadOfEachStep() {
+    static void promise13_drift_HowManyAreInCarsAheadOfEachStep() {
         DayBelt x = Belts.high(2, "s110");
         x.in(0, 0);
         int seed = 0;
@@ -297,7 +297,7 @@ public final class EdgesOfDoingTest {
         due("STEPS", x.count(1), 2);
     }
 
-    static void promise13EachDrawIsUndone() {
+    static void promise13_drift_EachDrawIsUndone() {
         DayBelt x = Belts.high(2, "p100,p100,p100");
         for (int p = 0; p < 3; p++) {
             x.in(p, 0);
@@ -319,7 +319,7 @@ public final class EdgesOfDoingTest {
 
     // ---- 14 undo
 
-    static void promise14NoneIsKnown() {
+    static void promise14_undo_NoneIsKnown() {
         Twins.same("at first", DayBelt::new, NONE, DayBelt::undo);
         Twins.same("behind a block", () -> Belts.high(2, "p100"), NONE, DayBelt::undo);
         Twins.same("behind eight undone", EdgesOfDoingTest::allUndone, NONE, DayBelt::undo);
@@ -340,7 +340,7 @@ public final class EdgesOfDoingTest {
         return x;
     }
 
-    static void promise14HowManyMoreMayBe() {
+    static void promise14_undo_HowManyMoreMayBe() {
         DayBelt x = Belts.rich();
         for (int k = 7; k >= 0; k--) {
             due("undo", x.undo(), k);
@@ -350,7 +350,7 @@ public final class EdgesOfDoingTest {
         due("count(5)", x.count(5), 0);
     }
 
-    static void promise14WhatIsDoneBehindAnUndo() {
+    static void promise14_undo_WhatIsDoneBehindAnUndo() {
         DayBelt x = Belts.high(2, "p100");
         x.steps(8);
         x.undo();
@@ -366,7 +366,7 @@ public final class EdgesOfDoingTest {
         due("the oldest is lost", x.undo(), NONE);
     }
 
-    static void promise14ManyTimesEight() {
+    static void promise14_undo_ManyTimesEight() {
         DayBelt x = Belts.high(2, "p100");
         for (int times = 0; times < 5; times++) {
             x.steps(5 + times);
@@ -379,7 +379,7 @@ public final class EdgesOfDoingTest {
         }
     }
 
-    static void promise14TellingIsNotUndone() {
+    static void promise14_undo_TellingIsNotUndone() {
         DayBelt x = Belts.high(2, "p100");
         x.day(0, 6);
         x.rule(0, 5);
@@ -393,7 +393,7 @@ public final class EdgesOfDoingTest {
         due("undo", x.undo(), NONE);
     }
 
-    static void promise14OneTurnedOutIsInAgain() {
+    static void promise14_undo_OneTurnedOutIsInAgain() {
         DayBelt x = Belts.block("2;3456;s110,a100");
         x.in(0, 0);
         x.in(1, 1);
@@ -409,7 +409,7 @@ public final class EdgesOfDoingTest {
         due("DAY of its own", x.of(1, 4), 0);
     }
 
-    static void promise14LunchesAreUndone() {
+    static void promise14_undo_LunchesAreUndone() {
         DayBelt x = Belts.high(2, "p100,p100");
         x.rule(1, 2);
         x.steps(4);
@@ -424,7 +424,7 @@ public final class EdgesOfDoingTest {
 
     // ---- 15 seed
 
-    static void promise15From0To31Bits() {
+    static void promise15_seed_From0To31Bits() {
         due("0", Belts.rich().seed(0), drawOf(Belts.rich()));
         due("the greatest", Belts.rich().seed(MAX), drawOf(Belts.rich()));
         DayBelt x = new DayBelt();
@@ -439,7 +439,7 @@ public final class EdgesOfDoingTest {
         return draw;
     }
 
-    static void promise15BadBelow0() {
+    static void promise15_seed_BadBelow0() {
         Twins.same("-1", Belts::typing, BAD, x -> x.seed(-1));
         Twins.same("the least", Belts::typing, BAD, x -> x.seed(MIN));
     }

@@ -34,7 +34,7 @@ public final class EdgesOfForetellingTest {
 
     // ---- 16 at
 
-    static void promise16FloorIsOneOfTheBlock() {
+    static void promise16_at_FloorIsOneOfTheBlock() {
         Twins.range("floor", EdgesOfForetellingTest::six, 0, 0, 5, 5, (x, v) -> x.at(v, 0, 0));
         for (int high = 2; high <= 6; high++) {
             int h = high;
@@ -43,20 +43,20 @@ public final class EdgesOfForetellingTest {
         Twins.range("floor at first", DayBelt::new, 0, 0, 2, 2, (x, v) -> x.at(v, 0, 0));
     }
 
-    static void promise16SideIs0Or1() {
+    static void promise16_at_SideIs0Or1() {
         Twins.range("side", EdgesOfForetellingTest::six, 0, 0, 1, 11, (x, v) -> x.at(0, v, 0));
     }
 
-    static void promise16Behind0To999Steps() {
+    static void promise16_at_Behind0To999Steps() {
         Twins.range("n", EdgesOfForetellingTest::six, 0, 0, 999, Math.floorMod(-999, 12), (x, v) -> x.at(0, 0, v));
     }
 
-    static void promise16NothingIsChanged() {
+    static void promise16_at_NothingIsChanged() {
         int car = Belts.typing().at(0, 0, 999);
         Twins.same("at", Belts::typing, car, x -> x.at(0, 0, 999));
     }
 
-    static void promise16AsItIsBehindTheSteps() {
+    static void promise16_at_AsItIsBehindTheSteps() {
         for (int high = 2; high <= 6; high++) {
             DayBelt x = Belts.high(high, "p100");
             int[] foretold = new int[2 * high];
@@ -77,13 +77,13 @@ public final class EdgesOfForetellingTest {
         return place < high ? x.at(place, 0, n) : x.at(2 * high - 1 - place, 1, n);
     }
 
-    static void promise16BeyondTheLastStepToo() {
+    static void promise16_at_BeyondTheLastStepToo() {
         due("behind 999 of 9999", Belts.worn(Belts.MOST_STEPS).at(0, 0, 999), Math.floorMod(-10998, 6));
     }
 
     // ---- 17 place
 
-    static void promise17CarIsOneOfTheBlock() {
+    static void promise17_place_CarIsOneOfTheBlock() {
         for (int high = 2; high <= 6; high++) {
             int h = high;
             Twins.range("car of " + h, () -> Belts.high(h, "p100"), 0, 1, 2 * h - 1, 0, (x, v) -> x.place(v, 1));
@@ -91,11 +91,11 @@ public final class EdgesOfForetellingTest {
         Twins.range("car at first", DayBelt::new, 0, 0, 5, 5, (x, v) -> x.place(v, 0));
     }
 
-    static void promise17Behind0To999Steps() {
+    static void promise17_place_Behind0To999Steps() {
         Twins.range("n", EdgesOfForetellingTest::six, 0, 3, 999, (3 + 999) % 12, (x, v) -> x.place(3, v));
     }
 
-    static void promise17FromTheLastPlaceToPlace0() {
+    static void promise17_place_FromTheLastPlaceToPlace0() {
         for (int high = 2; high <= 6; high++) {
             DayBelt x = Belts.high(high, "p100");
             for (int car = 0; car < 2 * high; car++) {
@@ -105,31 +105,31 @@ public final class EdgesOfForetellingTest {
         }
     }
 
-    static void promise17NothingIsChanged() {
+    static void promise17_place_NothingIsChanged() {
         int place = Belts.typing().place(11, 999);
         Twins.same("place", Belts::typing, place, x -> x.place(11, 999));
     }
 
-    static void promise17BeyondTheLastStepToo() {
+    static void promise17_place_BeyondTheLastStepToo() {
         due("behind 999 of 9999", Belts.worn(Belts.MOST_STEPS).place(5, 999), (5 + 10998) % 6);
     }
 
     // ---- 18 comes
 
-    static void promise18DayIs0To6() {
+    static void promise18_comes_DayIs0To6() {
         Twins.range("day", EdgesOfForetellingTest::six, 0, 0, 6, 6, (x, v) -> x.comes(v, 0, 0));
     }
 
-    static void promise18FloorIsOneOfTheBlock() {
+    static void promise18_comes_FloorIsOneOfTheBlock() {
         Twins.range("floor", EdgesOfForetellingTest::six, 0, 0, 5, 5, (x, v) -> x.comes(0, v, 0));
         Twins.range("floor at first", DayBelt::new, 0, 0, 2, 2, (x, v) -> x.comes(0, v, 0));
     }
 
-    static void promise18SideIs0Or1() {
+    static void promise18_comes_SideIs0Or1() {
         Twins.range("side", EdgesOfForetellingTest::six, 0, 0, 1, 4, (x, v) -> x.comes(0, 0, v));
     }
 
-    static void promise18TheFirstOf0To11Steps() {
+    static void promise18_comes_TheFirstOf0To11Steps() {
         for (int car = 0; car < 12; car++) {
             StringBuilder days = new StringBuilder("000000000000");
             days.setCharAt(car, '6');
@@ -139,14 +139,14 @@ public final class EdgesOfForetellingTest {
         }
     }
 
-    static void promise18TheSoonerOfTwo() {
+    static void promise18_comes_TheSoonerOfTwo() {
         DayBelt x = Belts.block("6;000600000060;p100");
         due("CAR 10 ahead of CAR 3", x.comes(6, 0, 0), 2);
         x.steps(3);
         due("CAR 3 then", x.comes(6, 0, 0), 6);
     }
 
-    static void promise18None() {
+    static void promise18_comes_None() {
         for (int high = 2; high <= 6; high++) {
             DayBelt x = Belts.block(high + ";" + "5".repeat(2 * high) + ";p100");
             due(high + ": of DAY 5", x.comes(5, high - 1, 1), 0);
@@ -155,51 +155,51 @@ public final class EdgesOfForetellingTest {
         Twins.same("none", EdgesOfForetellingTest::sixWithoutDay6, NONE, x -> x.comes(6, 0, 0));
     }
 
-    static void promise18BadAheadOfNone() {
+    static void promise18_comes_BadAheadOfNone() {
         Twins.same("floor", EdgesOfForetellingTest::sixWithoutDay6, BAD, x -> x.comes(6, 6, 0));
         Twins.same("side", EdgesOfForetellingTest::sixWithoutDay6, BAD, x -> x.comes(6, 0, 2));
     }
 
-    static void promise18NothingIsChanged() {
+    static void promise18_comes_NothingIsChanged() {
         int n = Belts.typing().comes(4, 5, 1);
         Twins.same("comes", Belts::typing, n, x -> x.comes(4, 5, 1));
     }
 
     // ---- 19 soonest
 
-    static void promise19PersonIsOneThatCame() {
+    static void promise19_soonest_PersonIsOneThatCame() {
         Twins.range("person", EdgesOfForetellingTest::six, 0, 5, 5, 5, (x, v) -> x.soonest(v, 5, 0, 0));
         Twins.bad("person of five", Belts::typing, 0, 4, (x, v) -> x.soonest(v, 5, 0, 0));
         Twins.same("person 0 of none", DayBelt::new, BAD, x -> x.soonest(0, 0, 0, 0));
     }
 
-    static void promise19FloorIsOneOfTheBlock() {
+    static void promise19_soonest_FloorIsOneOfTheBlock() {
         Twins.range("floor", EdgesOfForetellingTest::six, 0, 0, 5, 5, (x, v) -> x.soonest(0, v, 0, 0));
         Twins.range("floor of 2", () -> Belts.high(2, "p100"), 0, 0, 1, 1, (x, v) -> x.soonest(0, v, 0, 0));
     }
 
-    static void promise19DayIs0To6() {
+    static void promise19_soonest_DayIs0To6() {
         // car 6 comes down to floor 0 behind five steps; who goes up two floors meets it on its way
         Twins.range("day", EdgesOfForetellingTest::six, 0, 0, 6, 5, (x, v) -> x.soonest(0, 0, v, 0));
     }
 
-    static void promise19WhatIs0Or1() {
+    static void promise19_soonest_WhatIs0Or1() {
         Twins.range("what", EdgesOfForetellingTest::six, 0, 5, 1, 1, (x, v) -> x.soonest(0, 5, 0, v));
     }
 
-    static void promise19None() {
+    static void promise19_soonest_None() {
         for (int what = 0; what < 2; what++) {
             int w = what;
             Twins.same("what " + w, EdgesOfForetellingTest::sixWithoutDay6, NONE, x -> x.soonest(0, 0, 6, w));
         }
     }
 
-    static void promise19BadAheadOfNone() {
+    static void promise19_soonest_BadAheadOfNone() {
         Twins.same("floor", EdgesOfForetellingTest::sixWithoutDay6, BAD, x -> x.soonest(0, 6, 6, 0));
         Twins.same("what", EdgesOfForetellingTest::sixWithoutDay6, BAD, x -> x.soonest(0, 0, 6, 2));
     }
 
-    static void promise19OfNoStepsThatOneMore() {
+    static void promise19_soonest_OfNoStepsThatOneMore() {
         DayBelt x = Belts.block("2;3456;p100");
         due("it is there", x.soonest(0, 0, 0, 0), 0);
         due("it stays", x.soonest(0, 0, 0, 1), 0);
@@ -209,7 +209,7 @@ public final class EdgesOfForetellingTest {
         due("OUT", x.soonest(0, 0, 3, 1), 3);
     }
 
-    static void promise19BehindTheLastStepOneMore() {
+    static void promise19_soonest_BehindTheLastStepOneMore() {
         DayBelt x = Belts.block("2;3456;p100");
         due("IN, a STEP, OUT", x.soonest(0, 1, 3, 0), 1);
         due("IN on side 0", x.soonest(0, 1, 3, 1), 1);
@@ -217,7 +217,7 @@ public final class EdgesOfForetellingTest {
         due("IN on side 1", x.soonest(0, 0, 6, 1), 2);
     }
 
-    static void promise19WhateverLoadsAre() {
+    static void promise19_soonest_WhateverLoadsAre() {
         DayBelt x = Belts.block("2;3456;k900,p900");
         x.rule(0, 1);
         x.in(0, 0);
@@ -225,7 +225,35 @@ public final class EdgesOfForetellingTest {
         due("but foretold", x.soonest(1, 1, 3, 0), 1);
     }
 
-    static void promise19NothingIsChanged() {
+    /** All ride just ahead of a turn; to get on by another car, who is turned out there need not get out first. */
+    static void promise19_soonest_WhoIsTurnedOutAboveNeedNotGetOut() {
+        int[] moves = {3, 0, 3, 3, 3};
+        DayBelt x = Belts.block("3;012345;p106,s106,h106,k106,a106");
+        rideAll(x, 0, 2);
+        for (int p = 0; p < 5; p++) {
+            due("kind " + p + ": OUT, a STEP, IN, a STEP, OUT", x.soonest(p, 2, 5, 0), 2);
+            due("kind " + p + ": first", x.soonest(p, 2, 5, 1), moves[p]);
+        }
+    }
+
+    static void promise19_soonest_WhoIsTurnedOutBelowNeedNotGetOut() {
+        int[] moves = {3, 0, 3, 3, 0};
+        DayBelt x = Belts.block("3;012345;p116,s116,h116,k116,a116");
+        rideAll(x, 1, 1);
+        for (int p = 0; p < 5; p++) {
+            due("kind " + p + ": OUT, a STEP, IN, a STEP, OUT", x.soonest(p, 0, 3, 0), 2);
+            due("kind " + p + ": first", x.soonest(p, 0, 3, 1), moves[p]);
+        }
+    }
+
+    private static void rideAll(DayBelt x, int side, int n) {
+        for (int p = 0; p < x.count(0); p++) {
+            x.in(p, side);
+        }
+        x.steps(n);
+    }
+
+    static void promise19_soonest_NothingIsChanged() {
         for (int what = 0; what < 2; what++) {
             int w = what;
             int answer = Belts.typing().soonest(1, 5, 3, w);
@@ -234,7 +262,7 @@ public final class EdgesOfForetellingTest {
         }
     }
 
-    static void promise19BeyondTheLastStepToo() {
+    static void promise19_soonest_BeyondTheLastStepToo() {
         DayBelt x = Belts.worn(Belts.MOST_STEPS);
         DayBelt y = Belts.worn(Belts.MOST_STEPS - 6 * 100);
         for (int floor = 0; floor < 3; floor++) {
@@ -245,9 +273,9 @@ public final class EdgesOfForetellingTest {
     }
 
     /** What is foretold is done: each move and a step, and what is foretold then. */
-    static void promise19TheLeastMoveByWhichItCanBeSoSoon() {
+    static void promise19_soonest_TheLeastMoveByWhichItCanBeSoSoon() {
         Random random = new Random(19);
-        for (int k = 0; k < 400; k++) {
+        for (int k = 0; k < 5000; k++) {
             long seed = random.nextLong();
             int high = some(seed).count(2);
             int floor = random.nextInt(high);
@@ -299,17 +327,17 @@ public final class EdgesOfForetellingTest {
 
     // ---- 20 never
 
-    static void promise20PersonIsOneThatCame() {
+    static void promise20_never_PersonIsOneThatCame() {
         Twins.range("person", EdgesOfForetellingTest::sixWithoutDay6, 0, 63, 5, 63, (x, v) -> x.never(v, 6));
         Twins.bad("person of five", Belts::typing, 0, 4, (x, v) -> x.never(v, 0));
         Twins.same("person 0 of none", DayBelt::new, BAD, x -> x.never(0, 0));
     }
 
-    static void promise20DayIs0To6() {
+    static void promise20_never_DayIs0To6() {
         Twins.range("day", EdgesOfForetellingTest::sixWithoutDay6, 0, 0, 6, 63, (x, v) -> x.never(0, v));
     }
 
-    static void promise20AllFloorsOrNoneOrAllButItsOwn() {
+    static void promise20_never_AllFloorsOrNoneOrAllButItsOwn() {
         for (int high = 2; high <= 6; high++) {
             for (int floor = 0; floor < high; floor++) {
                 DayBelt x = Belts.block(high + ";" + "5".repeat(2 * high) + ";p1" + floor + "6");
@@ -322,7 +350,7 @@ public final class EdgesOfForetellingTest {
         }
     }
 
-    static void promise20AsSoonestHasNone() {
+    static void promise20_never_AsSoonestHasNone() {
         for (int seed = 0; seed < 200; seed++) {
             DayBelt x = some(seed);
             for (int day = 0; day < 7; day++) {
@@ -335,7 +363,7 @@ public final class EdgesOfForetellingTest {
         }
     }
 
-    static void promise20NothingIsChanged() {
+    static void promise20_never_NothingIsChanged() {
         int set = Belts.typing().never(4, 6);
         Twins.same("never", Belts::typing, set, x -> x.never(4, 6));
     }
@@ -347,38 +375,38 @@ public final class EdgesOfForetellingTest {
         return Belts.high(6, "p135,s135,h135,k135,a135,p135");
     }
 
-    static void promise21PersonIsOneThatCame() {
+    static void promise21_meet_PersonIsOneThatCame() {
         Twins.range("person", EdgesOfForetellingTest::together, 0, 3, 5, 3, (x, v) -> x.meet(v, 2, 1));
         Twins.bad("person of five", Belts::typing, 0, 4, (x, v) -> x.meet(v, 2, 1));
         Twins.same("persons of none", DayBelt::new, BAD, x -> x.meet(0, 1, 0));
     }
 
-    static void promise21OtherIsOneThatCame() {
+    static void promise21_meet_OtherIsOneThatCame() {
         Twins.range("other", EdgesOfForetellingTest::together, 0, 3, 5, 3, (x, v) -> x.meet(2, v, 1));
         Twins.bad("other of five", Belts::typing, 0, 4, (x, v) -> x.meet(2, v, 1));
         Twins.same("the one and no other", () -> Belts.high(2, "p100"), BAD, x -> x.meet(0, 1, 0));
     }
 
-    static void promise21WhatIs0To2() {
+    static void promise21_meet_WhatIs0To2() {
         Twins.range("what", EdgesOfForetellingTest::together, 0, 0, 2, 5, (x, v) -> x.meet(0, 5, v));
         due("what 1", together().meet(0, 5, 1), 3);
     }
 
-    static void promise21BadAlike() {
+    static void promise21_meet_BadAlike() {
         for (int person = 0; person < 6; person++) {
             int p = person;
             Twins.same("alike", EdgesOfForetellingTest::together, BAD, x -> x.meet(p, p, 0));
         }
     }
 
-    static void promise21TheFloorComesAheadOfTheDay() {
+    static void promise21_meet_TheFloorComesAheadOfTheDay() {
         DayBelt x = Belts.block("2;0123;p105,p106");
         due("STEPS", x.meet(0, 1, 0), 1);
         due("FLOOR 0, not 1", x.meet(0, 1, 1), 0);
         due("DAY 3, not 0", x.meet(0, 1, 2), 3);
     }
 
-    static void promise21InACarIsNotOnAFloor() {
+    static void promise21_meet_InACarIsNotOnAFloor() {
         DayBelt x = Belts.block("2;3456;p100,p103");
         x.in(0, 0);
         due("one gets OUT on the other's DAY", x.meet(0, 1, 0), 0);
@@ -389,7 +417,7 @@ public final class EdgesOfForetellingTest {
     }
 
     /** The fewest steps in which both can be on a spot, then the least floor, then the least day. */
-    static void promise21AsSoonestOfBothTells() {
+    static void promise21_meet_AsSoonestOfBothTells() {
         int manyDays = 0;
         for (int seed = 0; seed < 1500; seed++) {
             DayBelt x = some(seed);
@@ -414,7 +442,7 @@ public final class EdgesOfForetellingTest {
         Check.that("there was more than one day on a floor at times", manyDays > 0);
     }
 
-    static void promise21NothingIsChanged() {
+    static void promise21_meet_NothingIsChanged() {
         for (int what = 0; what < 3; what++) {
             int w = what;
             int answer = Belts.typing().meet(1, 3, w);
@@ -424,11 +452,11 @@ public final class EdgesOfForetellingTest {
 
     // ---- 22 heaviest
 
-    static void promise22WhatIs0Or1() {
+    static void promise22_heaviest_WhatIs0Or1() {
         Twins.range("what", Belts::crowded, 0, 2, 1, 18, (x, v) -> x.heaviest(v));
     }
 
-    static void promise22OfEmptyOnesTheFirst() {
+    static void promise22_heaviest_OfEmptyOnesTheFirst() {
         due("CAR at first", new DayBelt().heaviest(0), 0);
         due("how much at first", new DayBelt().heaviest(1), 0);
         DayBelt x = Belts.high(6, "p100");
@@ -437,7 +465,7 @@ public final class EdgesOfForetellingTest {
         due("how much", x.heaviest(1), 0);
     }
 
-    static void promise22OfLikeOnesTheFirst() {
+    static void promise22_heaviest_OfLikeOnesTheFirst() {
         DayBelt x = Belts.high(6, "p400,h200,p451,s451");
         due("into the last CAR", x.in(0, 1), 11);
         due("the last CAR", x.heaviest(0), 11);
@@ -451,7 +479,19 @@ public final class EdgesOfForetellingTest {
         due("CAR 0 still", x.heaviest(0), 0);
     }
 
-    static void promise22OneMoreIsHeavier() {
+    static void promise22_heaviest_EachCarByItself() {
+        for (int high = 2; high <= 6; high++) {
+            for (int place = 0; place < 2 * high; place++) {
+                int floor = place < high ? place : 2 * high - 1 - place;
+                DayBelt x = Belts.high(high, "p1" + floor + "0");
+                x.in(0, place < high ? 0 : 1);
+                due("CAR", x.heaviest(0), place);
+                due("one", x.heaviest(1), 1);
+            }
+        }
+    }
+
+    static void promise22_heaviest_OneMoreIsHeavier() {
         DayBelt x = Belts.high(2, "p400,p510");
         x.in(0, 0);
         due("CAR 0", x.heaviest(0), 0);
@@ -460,33 +500,33 @@ public final class EdgesOfForetellingTest {
         due("five", x.heaviest(1), 5);
     }
 
-    static void promise22NothingIsChanged() {
+    static void promise22_heaviest_NothingIsChanged() {
         Twins.same("which", Belts::crowded, 2, x -> x.heaviest(0));
         Twins.same("how much", Belts::crowded, 18, x -> x.heaviest(1));
     }
 
     // ---- 23 changed
 
-    static void promise23PersonIsOneThatCame() {
+    static void promise23_changed_PersonIsOneThatCame() {
         Twins.range("person", EdgesOfForetellingTest::six, 0, 1, 5, 1, (x, v) -> x.changed(v, 5, 1, 0));
         Twins.bad("person of five", Belts::typing, 0, 4, (x, v) -> x.changed(v, 5, 1, 0));
         Twins.same("person 0 of none", DayBelt::new, BAD, x -> x.changed(0, 0, 0, 0));
     }
 
-    static void promise23FloorIsOneOfTheBlock() {
+    static void promise23_changed_FloorIsOneOfTheBlock() {
         Twins.range("floor", EdgesOfForetellingTest::six, 0, 111, 5, 1, (x, v) -> x.changed(0, v, 1, 0));
         Twins.bad("floor of 2", () -> Belts.high(2, "p100"), 0, 1, (x, v) -> x.changed(0, v, 1, 0));
     }
 
-    static void promise23DayIs0To6() {
+    static void promise23_changed_DayIs0To6() {
         Twins.range("day", EdgesOfForetellingTest::six, 0, NONE, 6, 6, (x, v) -> x.changed(0, 5, v, 0));
     }
 
-    static void promise23WhatIs0Or1() {
+    static void promise23_changed_WhatIs0Or1() {
         Twins.range("what", EdgesOfForetellingTest::six, 0, 1, 1, 5, (x, v) -> x.changed(0, 5, 1, v));
     }
 
-    static void promise23NoneIfNoneMakesItSooner() {
+    static void promise23_changed_NoneIfNoneMakesItSooner() {
         for (int what = 0; what < 2; what++) {
             int w = what;
             Twins.same("it is there", EdgesOfForetellingTest::six, NONE, x -> x.changed(0, 0, 0, w));
@@ -495,19 +535,19 @@ public final class EdgesOfForetellingTest {
         }
     }
 
-    static void promise23BadAheadOfNone() {
+    static void promise23_changed_BadAheadOfNone() {
         Twins.same("floor", EdgesOfForetellingTest::sixWithoutDay6, BAD, x -> x.changed(0, 6, 6, 0));
         Twins.same("what", EdgesOfForetellingTest::sixWithoutDay6, BAD, x -> x.changed(0, 0, 6, 2));
     }
 
-    static void promise23TheFirstAndTheLastTwo() {
+    static void promise23_changed_TheFirstAndTheLastTwo() {
         due("CARS 0 and 1", Belts.block("6;010000000000;p100").changed(0, 1, 1, 0), 1);
         due("CARS 10 and 11", Belts.block("6;000000000010;p100").changed(0, 0, 1, 0), 1011);
         due("how soon", Belts.block("6;000000000010;p100").changed(0, 0, 1, 1), 1);
         due("CARS 2 and 3", Belts.block("2;0010;p100").changed(0, 0, 1, 0), 203);
     }
 
-    static void promise23OfLikeOnesTheFirst() {
+    static void promise23_changed_OfLikeOnesTheFirst() {
         DayBelt x = Belts.block("3;011111;p100");
         due("CAR 0 with any: the first", x.changed(0, 1, 1, 0), 1);
         x = Belts.block("3;000110;p100");
@@ -516,7 +556,7 @@ public final class EdgesOfForetellingTest {
         due("CAR 0 with 4 or 5", x.changed(0, 1, 1, 0), 4);
     }
 
-    static void promise23SoonerByOneIsEnough() {
+    static void promise23_changed_SoonerByOneIsEnough() {
         // car 5 of day 1 comes below in one step: floor 1 is reached behind two; by car 0 behind one
         DayBelt x = Belts.block("3;000001;p100");
         due("as it is", x.soonest(0, 1, 1, 0), 2);
@@ -524,7 +564,7 @@ public final class EdgesOfForetellingTest {
         due("how soon", x.changed(0, 1, 1, 1), 1);
     }
 
-    static void promise23OfOneInACarTheCarsDayChangesToo() {
+    static void promise23_changed_OfOneInACarTheCarsDayChangesToo() {
         DayBelt x = Belts.block("3;012345;p100");
         x.in(0, 1);
         due("in CAR 5, for DAY 0", x.changed(0, 0, 0, 0), 5);
@@ -532,7 +572,7 @@ public final class EdgesOfForetellingTest {
     }
 
     /** Every two cars' days are changed by hand, and changed back. */
-    static void promise23AsSoonestTellsBehindEachChange() {
+    static void promise23_changed_AsSoonestTellsBehindEachChange() {
         Random random = new Random(23);
         int some = 0;
         for (int k = 0; k < 300; k++) {
@@ -575,7 +615,7 @@ public final class EdgesOfForetellingTest {
         return n;
     }
 
-    static void promise23NothingIsChanged() {
+    static void promise23_changed_NothingIsChanged() {
         for (int what = 0; what < 2; what++) {
             int w = what;
             int answer = Belts.typing().changed(2, 0, 3, w);
@@ -586,19 +626,19 @@ public final class EdgesOfForetellingTest {
 
     // ---- 24 goes
 
-    static void promise24From0To30Steps() {
+    static void promise24_goes_From0To30Steps() {
         Twins.range("n", Belts::typing, 0, 1000000, 30, 0, (x, v) -> x.goes(v, 50));
         Twins.range("n", Belts::typing, 0, 1000000, 30, 1000000, (x, v) -> x.goes(v, 0));
     }
 
-    static void promise24From0To100OfAHundred() {
+    static void promise24_goes_From0To100OfAHundred() {
         Twins.range("s", Belts::typing, 0, 1000000, 100, 0, (x, v) -> x.goes(30, v));
         Twins.range("s of no STEPS", Belts::typing, 0, 1000000, 100, 1000000, (x, v) -> x.goes(0, v));
         due("99 of 100", new DayBelt().goes(3, 99), 1);
         due("99 of 100, once more", new DayBelt().goes(4, 99), 0);
     }
 
-    static void promise24CutEachStep() {
+    static void promise24_goes_CutEachStep() {
         int apart = 0;
         for (int s = 0; s <= 100; s++) {
             long each = 1000000;
@@ -615,7 +655,7 @@ public final class EdgesOfForetellingTest {
 
     // ---- 25 image
 
-    static void promise25AllButSheetsAndTheTape() {
+    static void promise25_image_AllButSheetsAndTheTape() {
         Twins.alike("all is as it was", EdgesOfForetellingTest::restored, EdgesOfForetellingTest::imaged);
     }
 
@@ -647,7 +687,7 @@ public final class EdgesOfForetellingTest {
         return x;
     }
 
-    static void promise25SheetsAndTheTapeStay() {
+    static void promise25_image_SheetsAndTheTapeStay() {
         DayBelt x = Belts.rich();
         x.type('2');
         x.image();
@@ -661,7 +701,7 @@ public final class EdgesOfForetellingTest {
         due("one that was there", x.drop(2), 3);
     }
 
-    static void promise25ANewOneInPlaceOfTheOld() {
+    static void promise25_image_ANewOneInPlaceOfTheOld() {
         DayBelt x = Belts.rich();
         due("image()", x.image(), 1);
         x.steps(1);
@@ -672,11 +712,11 @@ public final class EdgesOfForetellingTest {
         due("STEPS", x.count(1), steps);
     }
 
-    static void promise25ChangesNothingElse() {
+    static void promise25_image_ChangesNothingElse() {
         Twins.same("an image of what is kept already", EdgesOfForetellingTest::imaged, 1, DayBelt::image);
     }
 
-    static void promise25NobodyIsKeptToo() {
+    static void promise25_image_NobodyIsKeptToo() {
         DayBelt x = new DayBelt();
         x.image();
         x.person(0, 1, 0, 0);
@@ -686,14 +726,29 @@ public final class EdgesOfForetellingTest {
         due("the next one's number", x.person(1, 2, 1, 1), 0);
     }
 
+    static void promise25_image_WhoCameSinceIsForgotten() {
+        DayBelt x = Belts.high(2, "p100");
+        x.rule(1, 2);
+        x.image();
+        x.person(0, 9, 0, 0);
+        x.steps(2);
+        x.in(1, 0);
+        x.restore();
+        due("who is in CARS", x.count(6), 0);
+        due("LOAD of the heaviest", x.heaviest(1), 0);
+        due("a new one in its place", x.person(0, 8, 1, 1), 1);
+        due("its CAR", x.of(1, 3), NONE);
+        due("its LUNCHES", x.of(1, 5), 0);
+    }
+
     // ---- 26 restore
 
-    static void promise26NoneThereIsNone() {
+    static void promise26_restore_NoneThereIsNone() {
         Twins.same("at first", DayBelt::new, NONE, DayBelt::restore);
         Twins.same("behind a block", EdgesOfForetellingTest::six, NONE, DayBelt::restore);
     }
 
-    static void promise26AgainAndAgain() {
+    static void promise26_restore_AgainAndAgain() {
         DayBelt x = imaged();
         int steps = x.count(1);
         for (int k = 0; k < 3; k++) {
@@ -706,7 +761,7 @@ public final class EdgesOfForetellingTest {
         }
     }
 
-    static void promise26BehindABlockOfOtherHeight() {
+    static void promise26_restore_BehindABlockOfOtherHeight() {
         Twins.alike("a lower block", () -> restoredBehind("2;6666;p116"), () -> onceImaged("6;012345601234;s353,a216"));
         Twins.alike("a higher block", () -> restoredBehindLow("6;666666666666;" + SIX), () -> onceImaged("2;3456;k113"));
     }
@@ -736,7 +791,7 @@ public final class EdgesOfForetellingTest {
         return x;
     }
 
-    static void promise26WhatMayBeUndoneToo() {
+    static void promise26_restore_WhatMayBeUndoneToo() {
         DayBelt x = Belts.high(2, "p100");
         x.steps(11);
         x.image();
@@ -753,7 +808,7 @@ public final class EdgesOfForetellingTest {
         due("no more", x.undo(), NONE);
     }
 
-    static void promise26AnUndoDoesNotUndoIt() {
+    static void promise26_restore_AnUndoDoesNotUndoIt() {
         DayBelt x = Belts.high(2, "p100");
         x.steps(1);
         x.image();

@@ -18,7 +18,7 @@ public final class EdgesOfPeopleTest {
 
     // ---- 1 a new object
 
-    static void promise01ABlockNobody() {
+    static void promise01_new_ABlockNobody() {
         int[] counts = {0, 0, 3, 20, 12, 0, 0, 0, NONE};
         for (int what = 0; what < counts.length; what++) {
             due("count(" + what + ")", new DayBelt().count(what), counts[what]);
@@ -37,7 +37,7 @@ public final class EdgesOfPeopleTest {
         due("an empty TAPE", x.type('2'), 1);
     }
 
-    static void promise01ObjectsAreApart() {
+    static void promise01_new_ObjectsAreApart() {
         Twins.alike("another object", EdgesOfPeopleTest::newBesideAnother, DayBelt::new);
     }
 
@@ -56,15 +56,15 @@ public final class EdgesOfPeopleTest {
 
     // ---- 2 person
 
-    static void promise02KindIs0To4() {
+    static void promise02_person_KindIs0To4() {
         Twins.range("kind", Belts::typing, 0, 5, 4, 5, (x, v) -> x.person(v, 1, 0, 0));
     }
 
-    static void promise02WeightIs1To9() {
+    static void promise02_person_WeightIs1To9() {
         Twins.range("weight", Belts::typing, 1, 5, 9, 5, (x, v) -> x.person(0, v, 0, 0));
     }
 
-    static void promise02FloorIsOneOfTheBlock() {
+    static void promise02_person_FloorIsOneOfTheBlock() {
         Twins.range("floor", Belts::typing, 0, 5, 5, 5, (x, v) -> x.person(0, 1, v, 0));
         for (int high = 2; high <= 6; high++) {
             int h = high;
@@ -73,11 +73,11 @@ public final class EdgesOfPeopleTest {
         Twins.range("floor at first", DayBelt::new, 0, 0, 2, 0, (x, v) -> x.person(0, 1, v, 0));
     }
 
-    static void promise02DayIs0To6() {
+    static void promise02_person_DayIs0To6() {
         Twins.range("day", Belts::typing, 0, 5, 6, 5, (x, v) -> x.person(0, 1, 0, v));
     }
 
-    static void promise02SixAreTakenASeventhIsFull() {
+    static void promise02_person_SixAreTakenASeventhIsFull() {
         DayBelt x = new DayBelt();
         for (int p = 0; p < 6; p++) {
             due("number", x.person(0, 1, 0, 0), p);
@@ -87,14 +87,14 @@ public final class EdgesOfPeopleTest {
         Twins.same("a seventh", Belts::crowded, FULL, y -> y.person(0, 1, 0, 0));
     }
 
-    static void promise02BadAheadOfFull() {
+    static void promise02_person_BadAheadOfFull() {
         Twins.same("a kind", Belts::crowded, BAD, x -> x.person(5, 1, 0, 0));
         Twins.same("a weight", Belts::crowded, BAD, x -> x.person(0, 10, 0, 0));
         Twins.same("a floor", Belts::crowded, BAD, x -> x.person(0, 1, 3, 0));
         Twins.same("a day", Belts::crowded, BAD, x -> x.person(0, 1, 0, 7));
     }
 
-    static void promise02ANewOneIsOnItsFloorWithoutLunch() {
+    static void promise02_person_ANewOneIsOnItsFloorWithoutLunch() {
         for (int kind = 0; kind < 5; kind++) {
             DayBelt x = Belts.rich();
             x.person(kind, 9, 5, 6);
@@ -107,7 +107,7 @@ public final class EdgesOfPeopleTest {
 
     // ---- 3 of
 
-    static void promise03PersonIsOneThatCame() {
+    static void promise03_of_PersonIsOneThatCame() {
         Twins.range("person of five", Belts::typing, 0, 0, 4, 4, (x, v) -> x.of(v, 0));
         Twins.range("person of six", Belts::crowded, 0, 0, 5, 0, (x, v) -> x.of(v, 0));
         Twins.range("person of one", () -> Belts.high(2, "k100"), 0, 3, 0, 3, (x, v) -> x.of(v, 0));
@@ -115,11 +115,11 @@ public final class EdgesOfPeopleTest {
         Twins.same("person -1 of none", DayBelt::new, BAD, x -> x.of(-1, 0));
     }
 
-    static void promise03WhatIs0To5() {
+    static void promise03_of_WhatIs0To5() {
         Twins.range("what", Belts::typing, 0, 1, 5, Belts.typing().of(1, 5), (x, v) -> x.of(1, v));
     }
 
-    static void promise03NoneInNoCar() {
+    static void promise03_of_NoneInNoCar() {
         DayBelt x = Belts.high(3, "p100");
         due("on a FLOOR", x.of(0, 3), NONE);
         x.in(0, 0);
@@ -128,7 +128,7 @@ public final class EdgesOfPeopleTest {
         due("OUT", x.of(0, 3), NONE);
     }
 
-    static void promise03InACarTheFloorPastWhichItGoes() {
+    static void promise03_of_InACarTheFloorPastWhichItGoes() {
         for (int high = 2; high <= 6; high++) {
             DayBelt x = Belts.high(high, "p100");
             x.in(0, 0);
@@ -142,7 +142,7 @@ public final class EdgesOfPeopleTest {
 
     // ---- 4 car
 
-    static void promise04CarIsOneOfTheBlock() {
+    static void promise04_car_CarIsOneOfTheBlock() {
         for (int high = 2; high <= 6; high++) {
             int h = high;
             Twins.range("car of " + h, () -> Belts.high(h, "p100"), 0, 0, 2 * h - 1, 2 * h - 1, (x, v) -> x.car(v, 1));
@@ -150,11 +150,11 @@ public final class EdgesOfPeopleTest {
         Twins.range("car at first", DayBelt::new, 0, 0, 5, 5, (x, v) -> x.car(v, 1));
     }
 
-    static void promise04WhatIs0To5() {
+    static void promise04_car_WhatIs0To5() {
         Twins.range("what", Belts::crowded, 0, 6, 5, 1 + 2 + 32, (x, v) -> x.car(0, v));
     }
 
-    static void promise04FewerCarsBehindALowerBlock() {
+    static void promise04_car_FewerCarsBehindALowerBlock() {
         DayBelt x = Belts.high(6, "p100");
         due("CAR 11", x.car(11, 1), 11);
         Belts.take(x, "2;0123;p100");
@@ -162,7 +162,7 @@ public final class EdgesOfPeopleTest {
         due("CAR 4", x.car(4, 1), BAD);
     }
 
-    static void promise04LoadIsWhatAllInItWeigh() {
+    static void promise04_car_LoadIsWhatAllInItWeigh() {
         DayBelt x = Belts.high(2, "h900,h900,h900,k900,k900,k900");
         x.rule(0, 60);
         int load = 0;
@@ -176,7 +176,7 @@ public final class EdgesOfPeopleTest {
 
     // ---- 5 day
 
-    static void promise05CarIsOneOfTheBlock() {
+    static void promise05_day_CarIsOneOfTheBlock() {
         for (int high = 2; high <= 6; high++) {
             int h = high;
             Twins.range("car of " + h, () -> Belts.high(h, "p100"), 0, 0, 2 * h - 1, (2 * h - 1) % 7, (x, v) -> x.day(v, 1));
@@ -184,11 +184,11 @@ public final class EdgesOfPeopleTest {
         Twins.bad("car", Belts::typing, 0, 11, (x, v) -> x.day(v, 1));
     }
 
-    static void promise05DayIs0To6() {
+    static void promise05_day_DayIs0To6() {
         Twins.range("v", Belts::typing, 0, 1, 6, 1, (x, v) -> x.day(1, v));
     }
 
-    static void promise05WhatItWas() {
+    static void promise05_day_WhatItWas() {
         DayBelt x = Belts.rich();
         due("to 6", x.day(11, 6), 4);
         due("to 0", x.day(11, 0), 6);
@@ -199,7 +199,7 @@ public final class EdgesOfPeopleTest {
 
     // ---- 6 rule
 
-    static void promise06LimitIs1To60() {
+    static void promise06_rule_LimitIs1To60() {
         Twins.range("LIMIT", Belts::typing, 1, 30, 60, 30, (x, v) -> x.rule(0, v));
         for (int v = 1; v <= 60; v += 59) {
             DayBelt x = Belts.rich();
@@ -209,7 +209,7 @@ public final class EdgesOfPeopleTest {
         }
     }
 
-    static void promise06NoonIs2To24() {
+    static void promise06_rule_NoonIs2To24() {
         Twins.range("NOON", Belts::typing, 2, 5, 24, 5, (x, v) -> x.rule(1, v));
         for (int v = 2; v <= 24; v += 22) {
             DayBelt x = Belts.rich();
@@ -219,11 +219,11 @@ public final class EdgesOfPeopleTest {
         }
     }
 
-    static void promise06WhatIs0Or1() {
+    static void promise06_rule_WhatIs0Or1() {
         Twins.range("what", Belts::typing, 0, 30, 1, 5, (x, v) -> x.rule(v, 10));
     }
 
-    static void promise06ALesserLimitTurnsNobodyOut() {
+    static void promise06_rule_ALesserLimitTurnsNobodyOut() {
         DayBelt x = Belts.high(3, "p900,p100,k100");
         x.in(0, 0);
         due("LIMIT 1", x.rule(0, 1), 20);
@@ -232,7 +232,7 @@ public final class EdgesOfPeopleTest {
         due("but a PORTER", x.in(2, 0), 0);
     }
 
-    static void promise06LunchesByNoon2And24() {
+    static void promise06_rule_LunchesByNoon2And24() {
         for (int noon = 2; noon <= 24; noon += 22) {
             DayBelt x = Belts.high(3, "p100");
             x.rule(1, noon);
@@ -249,12 +249,12 @@ public final class EdgesOfPeopleTest {
 
     // ---- 7 type
 
-    static void promise07LetterIs32To126() {
+    static void promise07_type_LetterIs32To126() {
         Twins.range("letter", Belts::typing, 32, 10, 126, 10, (x, v) -> x.type(v));
         Twins.same("a digit's number", Belts::typing, BAD, x -> x.type(2));
     }
 
-    static void promise07SixtyAreTakenA61stIsFull() {
+    static void promise07_type_SixtyAreTakenA61stIsFull() {
         DayBelt x = new DayBelt();
         for (int k = 1; k <= 60; k++) {
             due("letter " + k, x.type(' '), k);
@@ -266,7 +266,7 @@ public final class EdgesOfPeopleTest {
         Twins.same("letter 61", EdgesOfPeopleTest::fullTape, FULL, y -> y.type('0'));
     }
 
-    static void promise07BadAheadOfFull() {
+    static void promise07_type_BadAheadOfFull() {
         Twins.same("letter 31", EdgesOfPeopleTest::fullTape, BAD, x -> x.type(31));
         Twins.same("letter 127", EdgesOfPeopleTest::fullTape, BAD, x -> x.type(127));
     }
@@ -302,7 +302,7 @@ public final class EdgesOfPeopleTest {
     }
 
     /** Every letter but a blank in every place of a text: just those that can stand there are no fault there. */
-    static void promise08EachLetterThatCantStandThere() {
+    static void promise08_block_EachLetterThatCantStandThere() {
         String[] may = {"23456", ";", "0123456", "0123456", "0123456", "0123456", ";", "pshka", "123456789", "01", "0123456",
             ",", "pshka", "123456789", "01", "0123456", ","};
         for (int place = 0; place < may.length; place++) {
@@ -318,7 +318,7 @@ public final class EdgesOfPeopleTest {
         }
     }
 
-    static void promise08TheEndIsHowManyThereAre() {
+    static void promise08_block_TheEndIsHowManyThereAre() {
         for (int length = 0; length < GOOD.length(); length++) {
             if (length != 11) {
                 fault(GOOD.substring(0, length), length);
@@ -328,17 +328,17 @@ public final class EdgesOfPeopleTest {
         good(GOOD, 2);
     }
 
-    static void promise08AnEmptyTapeIsAFault() {
+    static void promise08_block_AnEmptyTapeIsAFault() {
         fault("", 0);
         Twins.same("an empty tape", Belts::rich, -20, DayBelt::block);
     }
 
-    static void promise08BlanksAloneAreAFaultAtTheEnd() {
+    static void promise08_block_BlanksAloneAreAFaultAtTheEnd() {
         fault(" ", 1);
         fault(padded("", 60), 60);
     }
 
-    static void promise08TwiceHighDays() {
+    static void promise08_block_TwiceHighDays() {
         for (int high = 2; high <= 6; high++) {
             String days = "6".repeat(2 * high - 1);
             fault(high + ";" + days + ";p100", 2 + days.length());
@@ -347,7 +347,7 @@ public final class EdgesOfPeopleTest {
         }
     }
 
-    static void promise08AFloorOfTheBlock() {
+    static void promise08_block_AFloorOfTheBlock() {
         for (int high = 2; high <= 6; high++) {
             String start = high + ";" + "0".repeat(2 * high) + ";p9";
             good(start + "00", 1);
@@ -356,7 +356,7 @@ public final class EdgesOfPeopleTest {
         }
     }
 
-    static void promise08OneToSixPeople() {
+    static void promise08_block_OneToSixPeople() {
         fault("2;0123;", 7);
         StringBuilder text = new StringBuilder("2;0123;p100");
         for (int people = 1; people <= 6; people++) {
@@ -367,21 +367,21 @@ public final class EdgesOfPeopleTest {
         fault("2;0123;" + SIX + ",", 7 + 6 * 5 - 1);
     }
 
-    static void promise08NoCommaWithoutOneBehindIt() {
+    static void promise08_block_NoCommaWithoutOneBehindIt() {
         fault("2;0123;p100,", 12);
         fault("2;0123;p100, ", 13);
         fault("2;0123;,p100", 7);
         fault("2;0123;p100,,p100", 12);
     }
 
-    static void promise08KindsInTheirOrder() {
+    static void promise08_block_KindsInTheirOrder() {
         for (int kind = 0; kind < 5; kind++) {
             DayBelt x = Belts.block("2;0123;" + "pshka".charAt(kind) + "100");
             due("kind", x.of(0, 0), kind);
         }
     }
 
-    static void promise08BlanksCountForNothing() {
+    static void promise08_block_BlanksCountForNothing() {
         for (int place = 0; place <= GOOD.length(); place++) {
             for (int blanks = 1; blanks <= 60 - GOOD.length(); blanks += 43) {
                 String text = GOOD.substring(0, place) + " ".repeat(blanks) + GOOD.substring(place);
@@ -397,7 +397,7 @@ public final class EdgesOfPeopleTest {
     }
 
     /** The place is that of the letter itself, on the tape, where blanks have places too. */
-    static void promise08AFaultIsBehindBlanks() {
+    static void promise08_block_AFaultIsBehindBlanks() {
         fault(" x", 1);
         fault("2 x", 2);
         fault("2;01  7", 6);
@@ -409,13 +409,13 @@ public final class EdgesOfPeopleTest {
         fault(padded("2;0123;p100", 59) + "x", 59);
     }
 
-    static void promise08OtherSignsAreNoBlanks() {
+    static void promise08_block_OtherSignsAreNoBlanks() {
         fault("2;0123;p100_", 11);
         fault("2;0123;p100.", 11);
         fault("_2;0123;p100", 0);
     }
 
-    static void promise08AFaultChangesNothingButTheTape() {
+    static void promise08_block_AFaultChangesNothingButTheTape() {
         String[] texts = {"", "1", "2", "2x", "6;01234560123", "6;012345601234", "2;0123;", "2;0123;p", "3;666666;p9", "3;666666;p92",
             "2;0123;p113,h", "2;6666;p116x", "2;6666;" + SIX + ",", "   ", "4;33333333;h111,s222,p999"};
         for (String text : texts) {
@@ -429,7 +429,7 @@ public final class EdgesOfPeopleTest {
         return answer;
     }
 
-    static void promise08ABlockInPlaceOfAll() {
+    static void promise08_block_ABlockInPlaceOfAll() {
         DayBelt x = Belts.rich();
         due("a block", Belts.take(x, "3;654321;a926,p115"), 2);
         int[] counts = {2, 0, 3, 30, 5, 0, 0, 0, 0};
@@ -447,7 +447,7 @@ public final class EdgesOfPeopleTest {
         }
     }
 
-    static void promise08LimitNoonAndTheDrawStay() {
+    static void promise08_block_LimitNoonAndTheDrawStay() {
         DayBelt x = new DayBelt();
         x.rule(0, 60);
         x.rule(1, 24);
@@ -458,7 +458,7 @@ public final class EdgesOfPeopleTest {
         due("THE DRAW", x.seed(0), Integer.MAX_VALUE);
     }
 
-    static void promise08StepsAre0AndNobodyHadLunch() {
+    static void promise08_block_StepsAre0AndNobodyHadLunch() {
         DayBelt x = Belts.worn(240);
         Check.that("there were LUNCHES", x.count(7) > 0);
         due("a block", Belts.take(x, GOOD), 2);
@@ -471,7 +471,7 @@ public final class EdgesOfPeopleTest {
         }
     }
 
-    static void promise08SheetsAndTheImageStay() {
+    static void promise08_block_SheetsAndTheImageStay() {
         DayBelt x = Belts.rich();
         due("a block", Belts.take(x, GOOD), 2);
         due("SHEET 1", x.drop(1), 6);
@@ -480,7 +480,7 @@ public final class EdgesOfPeopleTest {
         due("PEOPLE", x.count(0), 5);
     }
 
-    static void promise08AFullTapeIsABlockToo() {
+    static void promise08_block_AFullTapeIsABlockToo() {
         DayBelt x = fullTape();
         due("a 61st letter", x.type('x'), FULL);
         due("block()", x.block(), 2);
@@ -488,12 +488,12 @@ public final class EdgesOfPeopleTest {
 
     // ---- 9 count
 
-    static void promise09WhatIs0To8() {
+    static void promise09_count_WhatIs0To8() {
         Twins.range("what", Belts::typing, 0, 5, 8, Belts.typing().count(8), (x, v) -> x.count(v));
         due("what 8 of nobody", new DayBelt().count(8), NONE);
     }
 
-    static void promise09FewestLunchesOfNobodyAreNone() {
+    static void promise09_count_FewestLunchesOfNobodyAreNone() {
         DayBelt x = new DayBelt();
         x.steps(24);
         due("fewest", x.count(8), NONE);
@@ -506,7 +506,7 @@ public final class EdgesOfPeopleTest {
         due("all of two", x.count(7), 1);
     }
 
-    static void promise09FewestWhoeverHasThem() {
+    static void promise09_count_FewestWhoeverHasThem() {
         for (int least = 0; least < 6; least++) {
             StringBuilder people = new StringBuilder();
             for (int p = 0; p < 6; p++) {
@@ -525,7 +525,7 @@ public final class EdgesOfPeopleTest {
         }
     }
 
-    static void promise09MostStepsAndLunches() {
+    static void promise09_count_MostStepsAndLunches() {
         DayBelt x = Belts.high(2, SIX);
         x.rule(1, 2);
         for (int k = 0; k < 166; k++) {
@@ -537,7 +537,7 @@ public final class EdgesOfPeopleTest {
         due("fewest LUNCHES", x.count(8), 4999);
     }
 
-    static void promise09WhatMayBeUndoneIs0To8() {
+    static void promise09_count_WhatMayBeUndoneIs0To8() {
         DayBelt x = Belts.high(2, "p100");
         for (int k = 0; k < 12; k++) {
             due("behind " + k, x.count(5), Math.min(k, 8));

@@ -49,27 +49,27 @@ public final class EdgesOfSheetsTest {
 
     // ---- 27 weighed
 
-    static void promise27SheetIs0To3() {
+    static void promise27_weighed_SheetIs0To3() {
         Twins.range("sheet", EdgesOfSheetsTest::bytes, 0, 1, 3, NULL, (x, v) -> x.weighed(v, 0, 0, 1, 0));
         DayBelt x = bytes();
         x.sheet(3, 0, 1);
         due("sheet 3", x.weighed(3, 0, 0, 1, 0), 1);
     }
 
-    static void promise27LaneIs0To3() {
+    static void promise27_weighed_LaneIs0To3() {
         Twins.range("lane", EdgesOfSheetsTest::bytes, 0, 1, 3, CAST, (x, v) -> x.weighed(0, v, 0, 1, 0));
         Twins.range("lane", EdgesOfSheetsTest::longs, 0, CAST, 3, 1, (x, v) -> x.weighed(0, v, 0, 1, 0));
     }
 
-    static void promise27LoadsOf1To4Cars() {
+    static void promise27_weighed_LoadsOf1To4Cars() {
         Twins.range("n", EdgesOfSheetsTest::bytes, 1, 1, 4, 15, (x, v) -> x.weighed(0, 0, 0, v, 1));
     }
 
-    static void promise27WhatIs0Or1() {
+    static void promise27_weighed_WhatIs0Or1() {
         Twins.range("what", EdgesOfSheetsTest::bytes, 0, 1, 1, 16, (x, v) -> x.weighed(0, 0, 4, 1, v));
     }
 
-    static void promise27NullOfAMissingSheet() {
+    static void promise27_weighed_NullOfAMissingSheet() {
         Twins.same("sheet 3", EdgesOfSheetsTest::bytes, NULL, x -> x.weighed(3, 0, 0, 1, 0));
         DayBelt x = bytes();
         x.drop(0);
@@ -78,7 +78,7 @@ public final class EdgesOfSheetsTest {
         due("an empty one is not missing", x.weighed(0, 0, 0, 1, 0), INDEX);
     }
 
-    static void promise27CastOfAnotherLane() {
+    static void promise27_weighed_CastOfAnotherLane() {
         for (int lane = 0; lane < LANES; lane++) {
             for (int as = 0; as < LANES; as++) {
                 int l = lane;
@@ -88,7 +88,7 @@ public final class EdgesOfSheetsTest {
         }
     }
 
-    static void promise27IndexOnBothSides() {
+    static void promise27_weighed_IndexOnBothSides() {
         due("the first", bytes().weighed(0, 0, 0, 1, 1), 1);
         due("the last", bytes().weighed(0, 0, 4, 1, 1), 16);
         due("the last four", bytes().weighed(0, 0, 1, 4, 1), 30);
@@ -101,7 +101,7 @@ public final class EdgesOfSheetsTest {
         Twins.same("the least", EdgesOfSheetsTest::bytes, INDEX, x -> x.weighed(0, 0, MIN, 4, 1));
     }
 
-    static void promise27ItemsAre0To999() {
+    static void promise27_weighed_ItemsAre0To999() {
         for (int lane = 0; lane < LANES; lane++) {
             DayBelt x = binary(lane);
             Belts.row(x, 0, lane, 0, -1, lane == 0 ? 127 : 999, lane == 0 ? -128 : 1000);
@@ -127,7 +127,7 @@ public final class EdgesOfSheetsTest {
         return x;
     }
 
-    static void promise27NotWhereverTheItemIs() {
+    static void promise27_weighed_NotWhereverTheItemIs() {
         for (int i = 0; i <= 6; i++) {
             boolean bad = i <= 2 || i <= 5 && i + 3 >= 5;
             due("four from " + i, withABadItem().weighed(0, 1, i, 4, 0), bad ? NOT : 1);
@@ -138,7 +138,7 @@ public final class EdgesOfSheetsTest {
         due("just behind it", withABadItem().weighed(0, 1, 6, 4, 0), 1);
     }
 
-    static void promise27TheFirstThatIsNamed() {
+    static void promise27_weighed_TheFirstThatIsNamed() {
         DayBelt x = withABadItem();
         due("BAD ahead of NULL, by lane", x.weighed(3, 4, 0, 1, 0), BAD);
         due("BAD ahead of NULL, by n", x.weighed(3, 0, 0, 0, 0), BAD);
@@ -154,7 +154,7 @@ public final class EdgesOfSheetsTest {
         due("INDEX ahead of NOT", x.weighed(0, 1, 1, 2, 0), INDEX);
     }
 
-    static void promise27NoneIfNobodyFits() {
+    static void promise27_weighed_NoneIfNobodyFits() {
         DayBelt x = bytes();
         x.item(0, 0, 0, 31);
         due("all of them", x.weighed(0, 0, 0, 1, 1), 31);
@@ -166,7 +166,7 @@ public final class EdgesOfSheetsTest {
         due("one in two CARS: the set", x.weighed(0, 0, 0, 2, 1), NONE);
     }
 
-    static void promise27NobodyMakesNothing() {
+    static void promise27_weighed_NobodyMakesNothing() {
         DayBelt x = new DayBelt();
         Belts.row(x, 0, 0, 0, 0, 0, 0, 1);
         due("ways", x.weighed(0, 0, 0, 4, 0), 1);
@@ -175,14 +175,14 @@ public final class EdgesOfSheetsTest {
         due("the set of something", x.weighed(0, 0, 4, 1, 1), NONE);
     }
 
-    static void promise27EmptyCarsAreAWayToo() {
+    static void promise27_weighed_EmptyCarsAreAWayToo() {
         DayBelt x = bytes();
         Belts.row(x, 0, 0, 0, 0, 0, 0);
         due("ways", x.weighed(0, 0, 0, 4, 0), 1);
         due("the set", x.weighed(0, 0, 0, 4, 1), 0);
     }
 
-    static void promise27TheLeastSetIsTheLeastNumber() {
+    static void promise27_weighed_TheLeastSetIsTheLeastNumber() {
         // weights 5, 3, 2, 5: the sets that weigh 5 are {0}, {3} and {1, 2}
         DayBelt x = Belts.high(2, "p500,p300,h100,p500");
         Belts.row(x, 0, 2, 5, 5, 5, 5);
@@ -195,7 +195,7 @@ public final class EdgesOfSheetsTest {
         due("ways of four", x.weighed(0, 2, 0, 4, 0), 0);
     }
 
-    static void promise27MostPeopleAndCars() {
+    static void promise27_weighed_MostPeopleAndCars() {
         DayBelt x = Belts.high(2, "h900,h900,h900,k900,k900,k900");
         Belts.row(x, 0, 0, 108, 54, 54, 18, 36, 18, 36);
         due("all in one", x.weighed(0, 0, 0, 1, 0), 1);
@@ -204,14 +204,14 @@ public final class EdgesOfSheetsTest {
         due("one, two, one, two", x.weighed(0, 0, 3, 4, 0), 6 * 10 * 3);
     }
 
-    static void promise27NothingIsChanged() {
+    static void promise27_weighed_NothingIsChanged() {
         Twins.same("ways", EdgesOfSheetsTest::bytes, 1, x -> x.weighed(0, 0, 0, 4, 0));
         Twins.same("the set", EdgesOfSheetsTest::bytes, 15, x -> x.weighed(0, 0, 0, 4, 1));
     }
 
     // ---- 28 film
 
-    static void promise28FloorIsOneOfTheBlock() {
+    static void promise28_film_FloorIsOneOfTheBlock() {
         Twins.range("floor", EdgesOfSheetsTest::bytes, 0, 1, 2, 1, (x, v) -> x.film(v, 0, 1, 0, 0, 0));
         for (int high = 2; high <= 6; high++) {
             int h = high;
@@ -225,28 +225,28 @@ public final class EdgesOfSheetsTest {
         return x;
     }
 
-    static void promise28SideIs0Or1() {
+    static void promise28_film_SideIs0Or1() {
         Twins.range("side", EdgesOfSheetsTest::bytes, 0, 1, 1, 1, (x, v) -> x.film(0, v, 1, 0, 0, 0));
     }
 
-    static void promise28Behind1To24Steps() {
+    static void promise28_film_Behind1To24Steps() {
         Twins.range("n", () -> withSheet(3), 1, 1, 24, 24, (x, v) -> x.film(0, 0, v, 0, 0, 0));
     }
 
-    static void promise28SheetIs0To3() {
+    static void promise28_film_SheetIs0To3() {
         Twins.range("sheet", EdgesOfSheetsTest::bytes, 0, 1, 3, NULL, (x, v) -> x.film(0, 0, 1, v, 0, 0));
     }
 
-    static void promise28LaneIs0To3() {
+    static void promise28_film_LaneIs0To3() {
         Twins.range("lane", EdgesOfSheetsTest::bytes, 0, 1, 3, CAST, (x, v) -> x.film(0, 0, 1, 0, v, 0));
         Twins.range("lane", EdgesOfSheetsTest::longs, 0, CAST, 3, 1, (x, v) -> x.film(0, 0, 1, 0, v, 0));
     }
 
-    static void promise28NullOfAMissingSheet() {
+    static void promise28_film_NullOfAMissingSheet() {
         Twins.same("sheet 3", EdgesOfSheetsTest::bytes, NULL, x -> x.film(0, 0, 1, 3, 0, 0));
     }
 
-    static void promise28CastOfAnotherLane() {
+    static void promise28_film_CastOfAnotherLane() {
         for (int lane = 0; lane < LANES; lane++) {
             for (int as = 0; as < LANES; as++) {
                 int l = lane;
@@ -260,7 +260,7 @@ public final class EdgesOfSheetsTest {
         }
     }
 
-    static void promise28IndexOnBothSides() {
+    static void promise28_film_IndexOnBothSides() {
         due("from the first on", bytes().film(0, 0, 5, 0, 0, 0), 5);
         due("to the last", bytes().film(0, 0, 2, 0, 0, 3), 2);
         due("the last", bytes().film(0, 0, 1, 0, 0, 4), 1);
@@ -275,7 +275,7 @@ public final class EdgesOfSheetsTest {
         due("an empty one", x.film(0, 0, 1, 3, 0, 0), INDEX);
     }
 
-    static void promise28TheFirstThatIsNamed() {
+    static void promise28_film_TheFirstThatIsNamed() {
         Twins.same("BAD ahead of NULL, by floor", EdgesOfSheetsTest::bytes, BAD, x -> x.film(3, 0, 1, 3, 0, 0));
         Twins.same("BAD ahead of NULL, by n", EdgesOfSheetsTest::bytes, BAD, x -> x.film(0, 0, 25, 3, 0, 0));
         Twins.same("BAD ahead of NULL, by lane", EdgesOfSheetsTest::bytes, BAD, x -> x.film(0, 0, 1, 3, 4, 0));
@@ -286,7 +286,7 @@ public final class EdgesOfSheetsTest {
     }
 
     /** Car 0 with 1 and 2 in it goes up from place 0: it is at floor 2, side 0, behind 2 steps, and again behind 8. */
-    static void promise28FromTheFirstStepToTheLast() {
+    static void promise28_film_FromTheFirstStepToTheLast() {
         for (int lane = 0; lane < LANES; lane++) {
             DayBelt x = binary(lane);
             due("film", x.film(2, 0, 2, 0, lane, 1), 2);
@@ -299,7 +299,7 @@ public final class EdgesOfSheetsTest {
         }
     }
 
-    static void promise28WhatIsNowIsNotInIt() {
+    static void promise28_film_WhatIsNowIsNotInIt() {
         DayBelt x = bytes();
         due("LOAD now", x.car(x.at(0, 0, 0), 4), 3);
         x.film(0, 0, 5, 0, 0, 0);
@@ -308,7 +308,7 @@ public final class EdgesOfSheetsTest {
         items("floor 0, side 1", x, 0, 0, 0, 0, 0, 0, 3);
     }
 
-    static void promise28ShyOnesAreOutWhereTheBeltTurns() {
+    static void promise28_film_ShyOnesAreOutWhereTheBeltTurns() {
         String[] kinds = {"p", "s", "h", "k", "a"};
         int[] weighs = {1, 1, 2, 2, 1};
         for (int kind = 0; kind < 5; kind++) {
@@ -329,7 +329,7 @@ public final class EdgesOfSheetsTest {
         }
     }
 
-    static void promise28ComesToASheetAlone() {
+    static void promise28_film_ComesToASheetAlone() {
         Twins.same("a film of loads that the sheet has", EdgesOfSheetsTest::filmed, 5, x -> x.film(2, 0, 5, 0, 0, 0));
     }
 
@@ -339,7 +339,7 @@ public final class EdgesOfSheetsTest {
         return x;
     }
 
-    static void promise28BeyondTheLastStepToo() {
+    static void promise28_film_BeyondTheLastStepToo() {
         DayBelt x = Belts.worn(Belts.MOST_STEPS);
         x.sheet(0, 0, 24);
         due("film", x.film(0, 0, 24, 0, 0, 0), 24);
@@ -347,7 +347,7 @@ public final class EdgesOfSheetsTest {
     }
 
     /** All six are porters of 18: 108 is the most that a car can bear, and a byte holds it. */
-    static void promise28TheGreatestLoad() {
+    static void promise28_film_TheGreatestLoad() {
         for (int lane = 0; lane < LANES; lane++) {
             DayBelt x = Belts.high(2, "k900,k900,k900,k900,k900,k900");
             for (int p = 0; p < 6; p++) {
@@ -361,15 +361,15 @@ public final class EdgesOfSheetsTest {
 
     // ---- 29 sheet
 
-    static void promise29SheetIs0To3() {
+    static void promise29_sheet_SheetIs0To3() {
         Twins.range("sheet", EdgesOfSheetsTest::bytes, 0, 4, 3, 4, (x, v) -> x.sheet(v, 0, 4));
     }
 
-    static void promise29LaneIs0To3() {
+    static void promise29_sheet_LaneIs0To3() {
         Twins.range("lane", EdgesOfSheetsTest::bytes, 0, 4, 3, 4, (x, v) -> x.sheet(0, v, 4));
     }
 
-    static void promise29From0To24Items() {
+    static void promise29_sheet_From0To24Items() {
         for (int lane = 0; lane < LANES; lane++) {
             int l = lane;
             for (int n = 0; n <= 24; n++) {
@@ -384,19 +384,19 @@ public final class EdgesOfSheetsTest {
         }
     }
 
-    static void promise29SizeBelow0() {
+    static void promise29_sheet_SizeBelow0() {
         Twins.same("n -1", EdgesOfSheetsTest::bytes, SIZE, x -> x.sheet(0, 0, -1));
         Twins.same("n -1 of a missing one", EdgesOfSheetsTest::bytes, SIZE, x -> x.sheet(3, 0, -1));
         Twins.same("the least n", EdgesOfSheetsTest::bytes, SIZE, x -> x.sheet(0, 0, MIN));
     }
 
-    static void promise29BadAheadOfSize() {
+    static void promise29_sheet_BadAheadOfSize() {
         Twins.same("sheet", EdgesOfSheetsTest::bytes, BAD, x -> x.sheet(4, 0, -1));
         Twins.same("lane", EdgesOfSheetsTest::bytes, BAD, x -> x.sheet(0, 4, -1));
         Twins.same("lane", EdgesOfSheetsTest::bytes, BAD, x -> x.sheet(0, -1, -1));
     }
 
-    static void promise29ANewRowInPlaceOfTheOld() {
+    static void promise29_sheet_ANewRowInPlaceOfTheOld() {
         for (int lane = 0; lane < LANES; lane++) {
             for (int old = 0; old < LANES; old++) {
                 DayBelt x = binary(old);
@@ -408,7 +408,7 @@ public final class EdgesOfSheetsTest {
         }
     }
 
-    static void promise29ALongerRowHasNothingOfTheOld() {
+    static void promise29_sheet_ALongerRowHasNothingOfTheOld() {
         DayBelt x = bytes();
         x.sheet(0, 0, 1);
         x.sheet(0, 0, 7);
@@ -417,14 +417,14 @@ public final class EdgesOfSheetsTest {
 
     // ---- 30 drop
 
-    static void promise30SheetIs0To3() {
+    static void promise30_drop_SheetIs0To3() {
         Twins.range("sheet", EdgesOfSheetsTest::bytes, 0, 5, 3, NULL, (x, v) -> x.drop(v));
         DayBelt x = bytes();
         x.sheet(3, 1, 24);
         due("sheet 3", x.drop(3), 24);
     }
 
-    static void promise30NullOfAMissingSheet() {
+    static void promise30_drop_NullOfAMissingSheet() {
         Twins.same("sheet 3", EdgesOfSheetsTest::bytes, NULL, x -> x.drop(3));
         for (int sheet = 0; sheet < 4; sheet++) {
             int s = sheet;
@@ -436,7 +436,7 @@ public final class EdgesOfSheetsTest {
         due("sheet 2 stays", x.drop(2), 3);
     }
 
-    static void promise30AnEmptyOneHadNone() {
+    static void promise30_drop_AnEmptyOneHadNone() {
         for (int lane = 0; lane < LANES; lane++) {
             DayBelt x = new DayBelt();
             x.sheet(1, lane, 0);
@@ -445,7 +445,7 @@ public final class EdgesOfSheetsTest {
         }
     }
 
-    static void promise30ItHoldsNothingThen() {
+    static void promise30_drop_ItHoldsNothingThen() {
         DayBelt x = bytes();
         x.drop(0);
         due("item", x.item(0, 0, 0, 1), NULL);
@@ -459,23 +459,23 @@ public final class EdgesOfSheetsTest {
 
     // ---- 31 item
 
-    static void promise31SheetIs0To3() {
+    static void promise31_item_SheetIs0To3() {
         Twins.range("sheet", EdgesOfSheetsTest::bytes, 0, 1, 3, NULL, (x, v) -> x.item(v, 0, 0, 7));
         DayBelt x = bytes();
         x.sheet(3, 1, 24);
         due("sheet 3", x.item(3, 1, 23, 7), 1);
     }
 
-    static void promise31LaneIs0To3() {
+    static void promise31_item_LaneIs0To3() {
         Twins.range("lane", EdgesOfSheetsTest::bytes, 0, 1, 3, CAST, (x, v) -> x.item(0, v, 0, 7));
         Twins.range("lane", EdgesOfSheetsTest::longs, 0, CAST, 3, 1, (x, v) -> x.item(0, v, 0, 7));
     }
 
-    static void promise31NullOfAMissingSheet() {
+    static void promise31_item_NullOfAMissingSheet() {
         Twins.same("sheet 3", EdgesOfSheetsTest::bytes, NULL, x -> x.item(3, 0, 0, 7));
     }
 
-    static void promise31CastOfAnotherLane() {
+    static void promise31_item_CastOfAnotherLane() {
         for (int lane = 0; lane < LANES; lane++) {
             for (int as = 0; as < LANES; as++) {
                 int l = lane;
@@ -489,7 +489,7 @@ public final class EdgesOfSheetsTest {
         }
     }
 
-    static void promise31IndexOnBothSides() {
+    static void promise31_item_IndexOnBothSides() {
         DayBelt y = bytes();
         due("the first", y.item(0, 0, 0, 7), 1);
         due("the last", y.item(0, 0, 4, 9), 1);
@@ -500,7 +500,7 @@ public final class EdgesOfSheetsTest {
         }
     }
 
-    static void promise31TheFirstThatIsNamed() {
+    static void promise31_item_TheFirstThatIsNamed() {
         Twins.same("BAD ahead of NULL, by lane", EdgesOfSheetsTest::bytes, BAD, x -> x.item(3, 4, 0, 7));
         Twins.same("BAD ahead of INDEX, by lane", EdgesOfSheetsTest::bytes, BAD, x -> x.item(0, -1, 9, 7));
         Twins.same("NULL ahead of INDEX", EdgesOfSheetsTest::bytes, NULL, x -> x.item(3, 0, -1, 7));
@@ -514,7 +514,7 @@ public final class EdgesOfSheetsTest {
         return x.weighed(0, lane, 0, 1, 1);
     }
 
-    static void promise31TheLowestBits() {
+    static void promise31_item_TheLowestBits() {
         int[] width = {8, 16, 32, 64};
         int seven = 32;
         for (int lane = 0; lane < LANES; lane++) {
@@ -531,7 +531,7 @@ public final class EdgesOfSheetsTest {
         due("71 and all bits above an int", told(2, 71 | -1L << 32), 31);
     }
 
-    static void promise31TheGreatestAndTheLeastOfEachLane() {
+    static void promise31_item_TheGreatestAndTheLeastOfEachLane() {
         long[] most = {127, 32767, MAX, Long.MAX_VALUE};
         for (int lane = 0; lane < LANES; lane++) {
             due("the greatest of lane " + lane, told(lane, most[lane]), lane == 0 ? NONE : NOT);
@@ -545,7 +545,7 @@ public final class EdgesOfSheetsTest {
         }
     }
 
-    static void promise31TheOtherItemsStay() {
+    static void promise31_item_TheOtherItemsStay() {
         for (int lane = 0; lane < LANES; lane++) {
             DayBelt x = binary(lane);
             x.item(0, lane, 2, 31);
@@ -556,11 +556,11 @@ public final class EdgesOfSheetsTest {
 
     // ---- 32 copy
 
-    static void promise32FromIs0To3() {
+    static void promise32_copy_FromIs0To3() {
         Twins.range("from", EdgesOfSheetsTest::bytes, 0, 1, 3, NULL, (x, v) -> x.copy(v, 0, 2, 0, 1));
     }
 
-    static void promise32ToIs0To3() {
+    static void promise32_copy_ToIs0To3() {
         Twins.range("to", EdgesOfSheetsTest::bytes, 0, 1, 3, NULL, (x, v) -> x.copy(2, 0, v, 0, 1));
         DayBelt x = bytes();
         x.sheet(3, 0, 1);
@@ -569,14 +569,14 @@ public final class EdgesOfSheetsTest {
         items("there and back", x, 0, 0, 16, 2, 4, 8, 16);
     }
 
-    static void promise32NullOfEither() {
+    static void promise32_copy_NullOfEither() {
         Twins.same("from", EdgesOfSheetsTest::bytes, NULL, x -> x.copy(3, 0, 0, 0, 1));
         Twins.same("to", EdgesOfSheetsTest::bytes, NULL, x -> x.copy(0, 0, 3, 0, 1));
         Twins.same("both", EdgesOfSheetsTest::bytes, NULL, x -> x.copy(3, 0, 3, 0, 1));
         Twins.same("none of them", EdgesOfSheetsTest::bytes, NULL, x -> x.copy(0, 0, 3, 0, 0));
     }
 
-    static void promise32CastOfUnlikeLanes() {
+    static void promise32_copy_CastOfUnlikeLanes() {
         for (int one = 0; one < LANES; one++) {
             for (int two = 0; two < LANES; two++) {
                 int l = one;
@@ -597,7 +597,7 @@ public final class EdgesOfSheetsTest {
         return x;
     }
 
-    static void promise32IndexOfFrom() {
+    static void promise32_copy_IndexOfFrom() {
         due("all", bytes().copy(0, 0, 0, 0, 5), 5);
         due("the last", bytes().copy(0, 4, 2, 0, 1), 1);
         due("none behind the last", bytes().copy(0, 5, 2, 0, 0), 0);
@@ -611,7 +611,7 @@ public final class EdgesOfSheetsTest {
         Twins.same("more than it has", EdgesOfSheetsTest::bytes, INDEX, x -> x.copy(2, 0, 0, 0, 4));
     }
 
-    static void promise32IndexOfTo() {
+    static void promise32_copy_IndexOfTo() {
         due("three", bytes().copy(0, 0, 2, 0, 3), 3);
         due("to the last", bytes().copy(0, 0, 2, 2, 1), 1);
         due("none behind the last", bytes().copy(0, 0, 2, 3, 0), 0);
@@ -625,7 +625,7 @@ public final class EdgesOfSheetsTest {
         Twins.same("more than it has", EdgesOfSheetsTest::bytes, INDEX, x -> x.copy(0, 0, 2, 0, 4));
     }
 
-    static void promise32IndexOfHowMany() {
+    static void promise32_copy_IndexOfHowMany() {
         int[] beyond = {-1, 25, MIN, MAX};
         for (int n : beyond) {
             Twins.same(n + " items", EdgesOfSheetsTest::bytes, INDEX, x -> x.copy(0, 1, 2, 1, n));
@@ -635,7 +635,7 @@ public final class EdgesOfSheetsTest {
         Twins.same("all far off", EdgesOfSheetsTest::bytes, INDEX, x -> x.copy(0, MIN, 2, MIN, MIN));
     }
 
-    static void promise32TheFirstThatIsNamed() {
+    static void promise32_copy_TheFirstThatIsNamed() {
         Twins.same("BAD ahead of NULL, by to", EdgesOfSheetsTest::bytes, BAD, x -> x.copy(3, 0, 4, 0, 1));
         Twins.same("BAD ahead of NULL, by from", EdgesOfSheetsTest::bytes, BAD, x -> x.copy(-1, 0, 3, 0, 1));
         Twins.same("BAD ahead of INDEX", EdgesOfSheetsTest::bytes, BAD, x -> x.copy(0, 9, 4, 9, -1));
@@ -644,7 +644,7 @@ public final class EdgesOfSheetsTest {
         Twins.same("CAST ahead of INDEX", EdgesOfSheetsTest::bytes, CAST, x -> x.copy(0, 9, 1, 9, -1));
     }
 
-    static void promise32NoneChangesNothing() {
+    static void promise32_copy_NoneChangesNothing() {
         Twins.same("none", EdgesOfSheetsTest::bytes, 0, x -> x.copy(0, 0, 2, 0, 0));
         Twins.same("all onto itself", EdgesOfSheetsTest::bytes, 5, x -> x.copy(0, 0, 0, 0, 5));
         DayBelt x = bytes();
@@ -653,7 +653,7 @@ public final class EdgesOfSheetsTest {
         due("one of an empty one", x.copy(3, 0, 3, 0, 1), INDEX);
     }
 
-    static void promise32AsIfAllWereTakenAhead() {
+    static void promise32_copy_AsIfAllWereTakenAhead() {
         for (int lane = 0; lane < LANES; lane++) {
             DayBelt x = binary(lane);
             due("up by one", x.copy(0, 0, 0, 1, 4), 4);
@@ -667,7 +667,7 @@ public final class EdgesOfSheetsTest {
         }
     }
 
-    static void promise32ToAnotherOneTheFirstStays() {
+    static void promise32_copy_ToAnotherOneTheFirstStays() {
         for (int lane = 0; lane < LANES; lane++) {
             DayBelt x = binary(lane);
             due("two", x.copy(0, 3, 2, 1, 2), 2);
@@ -678,7 +678,7 @@ public final class EdgesOfSheetsTest {
         }
     }
 
-    static void promise32AllOf24() {
+    static void promise32_copy_AllOf24() {
         for (int lane = 0; lane < LANES; lane++) {
             DayBelt x = binary(lane);
             x.sheet(0, lane, 24);

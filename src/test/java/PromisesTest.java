@@ -11,20 +11,6 @@ public final class PromisesTest {
         Check.due("promise " + promise + ": " + call, got, want);
     }
 
-    private static int typed(DayBelt x, String text) {
-        for (int k = 0; k < text.length(); k++) {
-            x.type(text.charAt(k));
-        }
-        return x.block();
-    }
-
-    private static DayBelt block(String text) {
-        DayBelt x = new DayBelt();
-        int people = typed(x, text);
-        Check.that("the text is a block: " + text, people > 0);
-        return x;
-    }
-
     public static void main(String[] args) {
         promise = 0; constants();
         promise = 1; newObject();
@@ -127,7 +113,7 @@ public final class PromisesTest {
         due("steps stay", x.count(1), 2);
 
         // what one was who is there no more is forgotten
-        x = block("3;012345;p100");
+        x = Belts.block("3;012345;p100");
         x.rule(1, 2);
         x.image();
         x.person(PLAIN, 9, 0, 0);
@@ -144,7 +130,7 @@ public final class PromisesTest {
     }
 
     private static void of() {
-        DayBelt x = block("3;654321;p300,s411,h522,k903,a204");
+        DayBelt x = Belts.block("3;654321;p300,s411,h522,k903,a204");
         int[] weighs = {3, 4, 10, 18, 2};
         for (int p = 0; p < 5; p++) {
             due("kind of " + p, x.of(p, 0), p);
@@ -174,7 +160,7 @@ public final class PromisesTest {
     }
 
     private static void car() {
-        DayBelt x = block("2;3456;p900,h900,p111");
+        DayBelt x = Belts.block("2;3456;p900,h900,p111");
         x.rule(0, 60);
         x.in(0, 0);
         x.in(1, 0);
@@ -195,7 +181,7 @@ public final class PromisesTest {
         due("car 4", x.car(4, 0), BAD);
         due("what -1", x.car(0, -1), BAD);
         due("what 6", x.car(0, 6), BAD);
-        x = block("6;012345601234;p151");
+        x = Belts.block("6;012345601234;p151");
         due("car 11", x.car(11, 0), 4);
         due("car 12", x.car(12, 0), BAD);
         due("floor of 11", x.car(11, 2), 0);
@@ -248,9 +234,9 @@ public final class PromisesTest {
     }
 
     private static void fault(String text, int place) {
-        DayBelt x = block("2;0123;p110,s101");
+        DayBelt x = Belts.block("2;0123;p110,s101");
         x.steps(3);
-        due("block '" + text + "'", typed(x, text), -20 - place);
+        due("block '" + text + "'", Belts.take(x, text), -20 - place);
         due("people behind '" + text + "'", x.count(0), 2);
         due("steps behind '" + text + "'", x.count(1), 3);
         due("high behind '" + text + "'", x.count(2), 2);
@@ -308,7 +294,7 @@ public final class PromisesTest {
         x.person(0, 1, 0, 0);
         x.steps(5);
         x.in(1, 0);
-        due("a block", typed(x, " 6 ; 012345 654321 ; p 1 5 6 , k902,a3 00 ,s400,h511 "), 5);
+        due("a block", Belts.take(x, " 6 ; 012345 654321 ; p 1 5 6 , k902,a3 00 ,s400,h511 "), 5);
         int[] counts = {5, 0, 6, 33, 5, 0, 0, 0, 0};
         for (int what = 0; what < counts.length; what++) {
             due("count(" + what + ")", x.count(what), counts[what]);
@@ -324,15 +310,15 @@ public final class PromisesTest {
         due("day of car 6", x.car(6, 0), 6);
         due("day of car 11", x.car(11, 0), 1);
         due("place of car 11", x.car(11, 1), 11);
-        due("six people", typed(x, "2;0000;p100,p100,p100,p100,p100,p100"), 6);
+        due("six people", Belts.take(x, "2;0000;p100,p100,p100,p100,p100,p100"), 6);
         due("they are six", x.count(0), 6);
-        due("one", typed(x, "2;6666;a916"), 1);
+        due("one", Belts.take(x, "2;6666;a916"), 1);
         due("car 4 is gone", x.car(4, 0), BAD);
         due("person 1 is gone", x.of(1, 0), BAD);
     }
 
     private static void count() {
-        DayBelt x = block("3;012345;p100,s111,a102");
+        DayBelt x = Belts.block("3;012345;p100,s111,a102");
         x.rule(1, 2);
         x.steps(2);
         due("all lunches", x.count(7), 2);
@@ -348,7 +334,7 @@ public final class PromisesTest {
         x.steps(60);
         due("undoable, eight", x.count(5), 8);
         due("STEPS", x.count(1), 64);
-        x = block("2;0123;p110,p100,p100");
+        x = Belts.block("2;0123;p110,p100,p100");
         x.rule(1, 2);
         x.steps(2);
         due("the first one has fewest", x.count(8), 0);
@@ -363,7 +349,7 @@ public final class PromisesTest {
     }
 
     private static void in() {
-        DayBelt x = block("3;012345;p900,h900,k900,p100,s220,p300");
+        DayBelt x = Belts.block("3;012345;p900,h900,k900,p100,s220,p300");
         due("person -1", x.in(-1, 0), BAD);
         due("person 6", x.in(6, 0), BAD);
         due("side -1", x.in(0, -1), BAD);
@@ -382,7 +368,7 @@ public final class PromisesTest {
         due("at the top", x.in(4, 1), 3);
         x.steps(1);
         due("the car that is there now", x.in(5, 0), 5);
-        x = block("3;012345;p900,p100");
+        x = Belts.block("3;012345;p900,p100");
         x.rule(0, 9);
         due("LIMIT of one", x.in(0, 0), 0);
         x.rule(0, 8);
@@ -390,7 +376,7 @@ public final class PromisesTest {
         due("another one", x.in(1, 0), FULL);
         x.rule(0, 10);
         due("with more LIMIT", x.in(1, 0), 0);
-        x = block("3;012345;p200,s200,h100,k100,a200");
+        x = Belts.block("3;012345;p200,s200,h100,k100,a200");
         x.rule(0, 1);
         for (int p = 0; p < 5; p++) {
             due("kind " + p + " above LIMIT", x.in(p, 0), p == PORTER ? 0 : FULL);
@@ -398,7 +384,7 @@ public final class PromisesTest {
     }
 
     private static void out() {
-        DayBelt x = block("3;654321;p900,s111");
+        DayBelt x = Belts.block("3;654321;p900,s111");
         due("in no car", x.out(0), NOT);
         due("person -1", x.out(-1), BAD);
         due("person 2", x.out(2), BAD);
@@ -440,7 +426,7 @@ public final class PromisesTest {
 
     private static void turnedOut() {
         // each kind goes once round from floor 0, side 0, in one car
-        DayBelt x = block("3;654321;p100,s100,h100,k100,a100");
+        DayBelt x = Belts.block("3;654321;p100,s100,h100,k100,a100");
         for (int p = 0; p < 5; p++) {
             x.in(p, 0);
         }
@@ -453,7 +439,7 @@ public final class PromisesTest {
         due("her floor", x.of(4, 2), 0);
         due("her day", x.of(4, 4), 6);
         due("her car", x.of(4, 3), NONE);
-        x = block("3;654321;s100,a100,s120,a120");
+        x = Belts.block("3;654321;s100,a100,s120,a120");
         due("car on the other side", x.in(0, 1), 5);
         due("car on the other side, aunt", x.in(1, 1), 5);
         due("top", x.in(2, 0), 2);
@@ -467,7 +453,7 @@ public final class PromisesTest {
     }
 
     private static void lunches() {
-        DayBelt x = block("2;0123;p100,p110,s100,p100,p100");
+        DayBelt x = Belts.block("2;0123;p100,p110,s100,p100,p100");
         x.rule(1, 2);
         x.in(2, 1);
         x.in(3, 1);
@@ -484,7 +470,7 @@ public final class PromisesTest {
         due("who rides past floor 0 has none", x.of(3, 3), 3);
         x.steps(1);
         due("noon", x.count(7), 6);
-        x = block("2;0123;s100");
+        x = Belts.block("2;0123;s100");
         x.rule(1, 3);
         x.steps(2);
         x.in(0, 1);
@@ -493,7 +479,7 @@ public final class PromisesTest {
     }
 
     private static void drift() {
-        DayBelt x = block("3;012345;p100,p100,p100,p100,p100,p100");
+        DayBelt x = Belts.block("3;012345;p100,p100,p100,p100,p100,p100");
         due("0", x.drift(0), BAD);
         due("61", x.drift(61), BAD);
         due("nobody rides, so it never stands", x.drift(60), 0);
@@ -529,7 +515,7 @@ public final class PromisesTest {
     }
 
     private static void undo() {
-        DayBelt x = block("3;654321;s100,p100");
+        DayBelt x = Belts.block("3;654321;s100,p100");
         due("none", x.undo(), NONE);
         x.rule(1, 2);
         x.in(0, 0);
@@ -560,12 +546,12 @@ public final class PromisesTest {
         due("in it again", x.of(1, 3), 5);
         x.steps(2);
         due("a new one takes the place of the undone", x.undo(), 2);
-        typed(x, "2;0123;p100");
+        Belts.take(x, "2;0123;p100");
         due("a block leaves none", x.undo(), NONE);
     }
 
     private static void undoneWhateverWasTold() {
-        DayBelt x = block("3;654321;p900,p901,p902");
+        DayBelt x = Belts.block("3;654321;p900,p901,p902");
         x.in(0, 0);
         x.out(0);
         x.day(0, 2);
@@ -664,12 +650,12 @@ public final class PromisesTest {
         due("the first of two", x.comes(0, 2, 1), 0);
         x.steps(1);
         due("then the other", x.comes(0, 2, 1), 2);
-        x = block("6;610000000000;p100");
+        x = Belts.block("6;610000000000;p100");
         due("as late as can be", x.comes(1, 0, 0), 11);
     }
 
     private static void soonest() {
-        DayBelt x = block("3;012345;p300,p100");
+        DayBelt x = Belts.block("3;012345;p300,p100");
         due("there already", x.soonest(0, 0, 0, 0), 0);
         due("by staying", x.soonest(0, 0, 0, 1), 0);
         due("up by car 0", x.soonest(0, 2, 0, 0), 2);
@@ -697,20 +683,20 @@ public final class PromisesTest {
         due("whatever LOADS are", x.soonest(1, 2, 0, 0), 2);
         due("nothing is changed", x.of(0, 3), 0);
         due("nothing is changed", x.count(1), 0);
-        x = block("3;012345;p300");
+        x = Belts.block("3;012345;p300");
         x.steps(4);
         // car 2 is below, on side 0
         due("from now on", x.soonest(0, 1, 2, 0), 1);
         due("from now on", x.soonest(0, 1, 2, 1), 1);
         due("car 0 comes in two steps", x.soonest(0, 1, 0, 0), 3);
         // cars 0 and 5 are of one day: by staying one step it would only be later
-        x = block("3;611116;p300");
+        x = Belts.block("3;611116;p300");
         due("the sooner car", x.soonest(0, 2, 6, 0), 2);
         due("staying is too late", x.soonest(0, 2, 6, 1), 1);
     }
 
     private static void soonestOfShyOnes() {
-        DayBelt x = block("2;0123;s115,p115,a115,s105,a105,p105");
+        DayBelt x = Belts.block("2;0123;s115,p115,a115,s105,a105,p105");
         // at the top, side 0, is car 1: a step turns out who is shy, on the same floor
         due("shy, at the top", x.soonest(0, 1, 1, 0), 1);
         due("shy, in on side 0", x.soonest(0, 1, 1, 1), 1);
@@ -727,14 +713,14 @@ public final class PromisesTest {
         due("shy is turned out below", x.soonest(3, 0, 3, 0), 1);
         due("in on side 1", x.soonest(3, 0, 3, 1), 2);
         // riding just ahead of a turn: who is turned out there need not get out, so staying is a way
-        x = block("3;012345;p106,s106,a106");
+        x = Belts.block("3;012345;p106,s106,a106");
         rideAll(x, 0, 2);
         due("above, plain: out, in car 5, out", x.soonest(0, 2, 5, 0), 2);
         due("above, shy", x.soonest(1, 2, 5, 0), 2);
         due("above, plain gets out", x.soonest(0, 2, 5, 1), 3);
         due("above, shy stays", x.soonest(1, 2, 5, 1), 0);
         due("above, an aunt gets out", x.soonest(2, 2, 5, 1), 3);
-        x = block("3;012345;p116,s116,a116");
+        x = Belts.block("3;012345;p116,s116,a116");
         rideAll(x, 1, 1);
         due("below, plain: out, in car 3, out", x.soonest(0, 0, 3, 0), 2);
         due("below, plain gets out", x.soonest(0, 0, 3, 1), 3);
@@ -750,7 +736,7 @@ public final class PromisesTest {
     }
 
     private static void never() {
-        DayBelt x = block("3;001122;p306,s306");
+        DayBelt x = Belts.block("3;001122;p306,s306");
         due("a car's day", x.never(0, 0), 0);
         due("its own day, no car's: only where it stands", x.never(0, 6), 6);
         due("shy, a car's day", x.never(1, 2), 0);
@@ -764,7 +750,7 @@ public final class PromisesTest {
     }
 
     private static void meet() {
-        DayBelt x = block("3;012345;p300,p100,p106,p121");
+        DayBelt x = Belts.block("3;012345;p300,p100,p106,p121");
         due("there already", x.meet(0, 1, 0), 0);
         due("on floor", x.meet(0, 1, 1), 0);
         due("on day", x.meet(0, 1, 2), 0);
@@ -779,20 +765,20 @@ public final class PromisesTest {
         due("what 3", x.meet(0, 1, 3), BAD);
         due("what -1", x.meet(0, 1, -1), BAD);
         // one in car 2 on its way to the top, where the other stands on that day
-        x = block("2;3344;p104,p113");
+        x = Belts.block("2;3344;p104,p113");
         x.in(0, 0);
         due("behind one step, out", x.meet(0, 1, 0), 1);
         due("on the upper floor", x.meet(0, 1, 1), 1);
         due("on day", x.meet(0, 1, 2), 3);
         due("the other way round", x.meet(1, 0, 0), 1);
-        x = block("2;0123;p100,p110");
+        x = Belts.block("2;0123;p100,p110");
         x.in(0, 0);
         x.in(1, 0);
         due("two in cars", x.meet(0, 1, 0), 2);
     }
 
     private static void heaviest() {
-        DayBelt x = block("3;012345;p300,p300,h320,p610");
+        DayBelt x = Belts.block("3;012345;p300,p300,h320,p610");
         due("the first of empty ones", x.heaviest(0), 0);
         due("nothing", x.heaviest(1), 0);
         x.in(0, 1);
@@ -810,7 +796,7 @@ public final class PromisesTest {
     }
 
     private static void changed() {
-        DayBelt x = block("3;012345;p300,p304");
+        DayBelt x = Belts.block("3;012345;p300,p304");
         due("there already: none", x.changed(0, 0, 0, 0), NONE);
         due("there already: how soon", x.changed(0, 0, 0, 1), NONE);
         due("no such day", x.changed(0, 0, 6, 0), NONE);
@@ -830,12 +816,12 @@ public final class PromisesTest {
         due("floor 3", x.changed(0, 3, 0, 0), BAD);
         due("day 7", x.changed(0, 0, 7, 0), BAD);
         due("what 2", x.changed(0, 0, 0, 2), BAD);
-        x = block("6;000000000001;p100");
+        x = Belts.block("6;000000000001;p100");
         due("far cars", x.changed(0, 1, 1, 0), 11);
-        x = block("6;111111111101;p101");
+        x = Belts.block("6;111111111101;p101");
         due("the last two", x.changed(0, 0, 0, 0), 1011);
         due("one step", x.changed(0, 0, 0, 1), 1);
-        x = block("3;500000;p300");
+        x = Belts.block("3;500000;p300");
         x.steps(1);
         due("only car 0 is of that day", x.changed(0, 1, 5, 0), 5);
         due("one step", x.changed(0, 1, 5, 1), 1);
@@ -862,7 +848,7 @@ public final class PromisesTest {
     }
 
     private static void image() {
-        DayBelt x = block("2;0123;p100");
+        DayBelt x = Belts.block("2;0123;p100");
         x.type('2');
         x.sheet(0, 1, 3);
         due("image()", x.image(), 1);
@@ -879,7 +865,7 @@ public final class PromisesTest {
     }
 
     private static void restore() {
-        DayBelt x = block("2;0123;s100,p111");
+        DayBelt x = Belts.block("2;0123;s100,p111");
         due("none", x.restore(), NONE);
         x.rule(0, 15);
         x.rule(1, 3);
@@ -896,7 +882,7 @@ public final class PromisesTest {
         x.rule(1, 4);
         x.seed(45);
         x.person(0, 9, 0, 0);
-        typed(x, "6;000000000000;h900,h900,h900");
+        Belts.take(x, "6;000000000000;h900,h900,h900");
         x.steps(9);
         for (int times = 0; times < 2; times++) {
             due("restore()", x.restore(), 1);
@@ -931,7 +917,7 @@ public final class PromisesTest {
         due("nobody, nothing", x.weighed(0, 2, 0, 2, 1), 0);
         due("nobody, something", x.weighed(0, 2, 0, 3, 0), 0);
         due("nobody, something", x.weighed(0, 2, 0, 3, 1), NONE);
-        x = block("3;012345;p100,p100,p200,h100,p300,p400");
+        x = Belts.block("3;012345;p100,p100,p200,h100,p300,p400");
         // 1, 1, 2, 2, 3, 4
         row(x, 1, 2, 2, 0, 1, 999, 13, 3, 3, 3, 3);
         due("2: of ones, or of one of two twos", x.weighed(0, 1, 0, 1, 0), 3);
@@ -950,14 +936,14 @@ public final class PromisesTest {
         x.in(0, 0);
         x.steps(1);
         due("wherever they are", x.weighed(0, 1, 0, 2, 0), 6);
-        x = block("3;012345;p100,p100,p100,p100,p100,p100");
+        x = Belts.block("3;012345;p100,p100,p100,p100,p100,p100");
         row(x, 0, 1, 1, 1, 1);
         due("6 by 5 by 4 by 3", x.weighed(0, 0, 0, 4, 0), 360);
         due("the first four", x.weighed(0, 0, 0, 4, 1), 15);
     }
 
     private static void weighedRefused() {
-        DayBelt x = block("3;012345;p100");
+        DayBelt x = Belts.block("3;012345;p100");
         due("a missing sheet", x.weighed(1, 0, 0, 1, 0), NULL);
         row(x, 3, 0, 999, 1000, -1, 1L << 32, 1);
         due("sheet 4", x.weighed(4, 3, 0, 1, 0), BAD);
@@ -984,7 +970,7 @@ public final class PromisesTest {
     }
 
     private static void film() {
-        DayBelt x = block("2;0123;s300,p400,k511,a600");
+        DayBelt x = Belts.block("2;0123;s300,p400,k511,a600");
         x.in(0, 0);
         x.in(1, 0);
         x.in(2, 1);
@@ -1059,7 +1045,7 @@ public final class PromisesTest {
     }
 
     private static void item() {
-        DayBelt x = block("3;012345;p700");
+        DayBelt x = Belts.block("3;012345;p700");
         due("sheet 4", x.item(4, 0, 0, 1), BAD);
         due("sheet -1", x.item(-1, 0, 0, 1), BAD);
         due("lane 4", x.item(0, 4, 0, 1), BAD);
@@ -1081,7 +1067,7 @@ public final class PromisesTest {
     }
 
     private static void copy() {
-        DayBelt x = block("3;012345;p100,p200,p400");
+        DayBelt x = Belts.block("3;012345;p100,p200,p400");
         due("from 4", x.copy(4, 0, 0, 0, 0), BAD);
         due("to 4", x.copy(0, 0, 4, 0, 0), BAD);
         due("from -1", x.copy(-1, 0, 0, 0, 0), BAD);
