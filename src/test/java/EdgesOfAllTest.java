@@ -2,10 +2,11 @@ import java.lang.reflect.Method;
 import java.util.Set;
 import java.util.TreeSet;
 
-/** Every promise has tests of its edges that bear its number and the name of its call. */
+/** Every promise has tests of its edges, and a run of 512 calls, that bear its number and the name of its call. */
 public final class EdgesOfAllTest {
-    private static final Class<?>[] TESTS = {EdgesOfTermsTest.class, EdgesOfPeopleTest.class, EdgesOfDoingTest.class,
+    private static final Class<?>[] EDGES = {EdgesOfTermsTest.class, EdgesOfPeopleTest.class, EdgesOfDoingTest.class,
         EdgesOfForetellingTest.class, EdgesOfSheetsTest.class};
+    private static final Class<?>[] LONG_RUNS = {LongRunsTest.class};
     private static final String[] CALLS = {"new", "person", "of", "car", "day", "rule", "type", "block", "count", "in", "out",
         "steps", "drift", "undo", "seed", "at", "place", "comes", "soonest", "never", "meet", "heaviest", "changed", "goes",
         "image", "restore", "weighed", "film", "sheet", "drop", "item", "copy"};
@@ -14,8 +15,14 @@ public final class EdgesOfAllTest {
     }
 
     public static void main(String[] args) {
+        eachPromiseHasOne(EDGES);
+        eachPromiseHasOne(LONG_RUNS);
+        Check.end();
+    }
+
+    private static void eachPromiseHasOne(Class<?>[] all) {
         Set<String> names = new TreeSet<>();
-        for (Class<?> tests : TESTS) {
+        for (Class<?> tests : all) {
             for (Method m : tests.getDeclaredMethods()) {
                 Check.that(m.getName() + " is the name of one test", !m.getName().startsWith("promise") || names.add(m.getName()));
             }
@@ -25,6 +32,5 @@ public final class EdgesOfAllTest {
             Check.that("a test's name begins with " + start, names.removeIf(name -> name.startsWith(start)));
         }
         Check.that("no test is named after another thing: " + names, names.isEmpty());
-        Check.end();
     }
 }

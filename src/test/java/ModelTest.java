@@ -1,15 +1,22 @@
 import java.util.Random;
 
-/** Runs of 512 calls by fixed seeds, each answered by the class and by the plain model, alike. */
+/**
+ * Runs of 512 calls by fixed seeds, each answered by the class and by the plain model, alike. The last calls of a
+ * run are one of each kind, so that each kind is also the 512th call of some run.
+ */
 public final class ModelTest {
-    private static final int RUNS = 600, CALLS = 512, FORETELLING_RUNS = 60;
+    private static final int RUNS = 620, FORETELLING_RUNS = 62, KINDS_OF_CALLS = 31;
     private static final int[] EDGES = {Integer.MIN_VALUE, -2, -1, 0, 1, 2, 3, 4, 5, 6, 7, 8, 9, 10, 11, 12, 23, 24, 25,
         30, 31, 59, 60, 61, 99, 100, 101, 999, 1000, 9999, Integer.MAX_VALUE};
+    /** How often each kind of call is made, by its place in the document; 0: only by a rarer choice. */
+    private static final int[] OFTEN = {8, 16, 12, 4, 4, 4, 1, 12, 24, 12, 20, 8, 8, 4, 4, 4, 8, 0, 0, 0, 4, 0, 4, 2, 2,
+        8, 4, 6, 1, 8, 5};
+    private static final int[] FORETELLING = {17, 17, 17, 18, 19, 19, 21};
+    private static final int TEXT_ONE_OF = 130, MOST_SLOW_ONE_OF = 5, SLOW_ONE_OF = 28;
+    private static final char TEXT_ENDS = '\n';
 
     private final Random random;
-    private final DayBelt x = new DayBelt();
-    private final Model m = new Model();
-    private final StringBuilder story = new StringBuilder();
+    private final Pair pair = new Pair();
     private String text = "";
 
     private ModelTest(long seed) {
@@ -18,33 +25,46 @@ public final class ModelTest {
 
     public static void main(String[] args) {
         for (int run = 0; run < RUNS && !Check.anyWrong(); run++) {
-            new ModelTest(run).calls(run < FORETELLING_RUNS ? 40 : 6);
+            new ModelTest(run).calls(run);
         }
         Check.end();
     }
 
     /** The model's foretelling is slow: only the first runs have much of it. */
-    private void calls(int slow) {
-        for (int k = 0; k < CALLS && !Check.anyWrong(); k++) {
-            int one = random.nextInt(160 + slow);
+    private void calls(int run) {
+        int slowOneOf = run < FORETELLING_RUNS ? MOST_SLOW_ONE_OF : SLOW_ONE_OF;
+        while (pair.left() > KINDS_OF_CALLS && pair.isAlike()) {
             if (!text.isEmpty()) {
                 typeOn();
-            } else if (one < 80) {
-                doing(random.nextInt(28));
-            } else if (one < 160) {
-                looking(random.nextInt(24));
+            } else if (random.nextInt(TEXT_ONE_OF) == 0) {
+                text = anyText();
+            } else if (random.nextInt(slowOneOf) == 0) {
+                call(FORETELLING[random.nextInt(FORETELLING.length)]);
             } else {
-                foretelling(random.nextInt(7));
+                call(anyKind());
             }
         }
-        if (Check.anyWrong()) {
-            System.out.println(story);
+        for (int k = 1; k <= KINDS_OF_CALLS && pair.isAlike(); k++) {
+            call((run + k) % KINDS_OF_CALLS);
         }
+        if (!pair.isAlike()) {
+            System.out.println("run " + run + ":\n" + pair.story());
+        }
+        Check.that("run " + run + " has 512 calls", pair.left() == 0);
     }
 
-    private void same(String call, long got, long want) {
-        story.append(call).append(" = ").append(got).append('\n');
-        Check.due(call, got, want);
+    private int anyKind() {
+        int all = 0;
+        for (int often : OFTEN) {
+            all += often;
+        }
+        int rest = random.nextInt(all);
+        int kind = 0;
+        while (rest >= OFTEN[kind]) {
+            rest -= OFTEN[kind];
+            kind++;
+        }
+        return kind;
     }
 
     /** Mostly within these bounds, at times just beyond them, at times an edge of something else. */
@@ -59,16 +79,41 @@ public final class ModelTest {
         return low + random.nextInt(high - low + 1);
     }
 
+    private boolean oneOf(int n) {
+        return random.nextInt(n) == 0;
+    }
+
     private int aPerson() {
-        return some(0, Math.max(0, m.count(0) - 1));
+        return some(0, Math.max(0, pair.people() - 1));
     }
 
     private int aFloor() {
-        return some(0, m.count(2) - 1);
+        return some(0, pair.high() - 1);
     }
 
     private int aCar() {
-        return some(0, 2 * m.count(2) - 1);
+        return some(0, 2 * pair.high() - 1);
+    }
+
+    private int aSide() {
+        return some(0, 1);
+    }
+
+    private int aDay() {
+        return some(0, 6);
+    }
+
+    private int aSheet() {
+        return some(0, 3);
+    }
+
+    /** Bytes and shorts more often, so that lanes are alike more often. */
+    private int aLane() {
+        return some(0, 3) & (oneOf(3) ? -1 : 1);
+    }
+
+    private int anItem() {
+        return some(0, oneOf(3) ? 23 : 4);
     }
 
     private String anyText() {
@@ -79,7 +124,7 @@ public final class ModelTest {
             s.append(random.nextInt(7));
         }
         s.append(';');
-        int people = 1 + random.nextInt(random.nextInt(8) == 0 ? 7 : 6);
+        int people = 1 + random.nextInt(oneOf(8) ? 7 : 6);
         for (int p = 0; p < people; p++) {
             s.append(p == 0 ? "" : ",").append("pshka".charAt(random.nextInt(5))).append(1 + random.nextInt(9));
             s.append(random.nextInt(high)).append(random.nextInt(7));
@@ -92,129 +137,58 @@ public final class ModelTest {
             case 1: s.setLength(random.nextInt(s.length() + 1)); break;
             default: break;
         }
-        return s.toString();
+        return s.append(TEXT_ENDS).toString();
     }
 
     private void typeOn() {
-        int letter = text.charAt(0);
+        if (text.charAt(0) == TEXT_ENDS) {
+            pair.block();
+        } else {
+            pair.type(text.charAt(0));
+        }
         text = text.substring(1);
-        same("type(" + letter + ")", x.type(letter), m.type(letter));
-        if (text.isEmpty()) {
-            same("block()", x.block(), m.block());
+    }
+
+    /** One call of a kind, by its place in the document. */
+    private void call(int kind) {
+        switch (kind) {
+            case 0: pair.person(some(0, 4), some(1, 9), aFloor(), aDay()); break;
+            case 1: pair.of(aPerson(), some(0, 5)); break;
+            case 2: pair.car(aCar(), some(0, 5)); break;
+            case 3: pair.day(aCar(), aDay()); break;
+            case 4: pair.rule(some(0, 1), some(1, 30)); break;
+            case 5: pair.type(some(32, 126)); break;
+            case 6: pair.block(); break;
+            case 7: pair.count(some(0, 8)); break;
+            case 8: pair.in(aPerson(), aSide()); break;
+            case 9: pair.out(aPerson()); break;
+            case 10: pair.steps(oneOf(5) ? some(1, 60) : some(1, 4)); break;
+            case 11: pair.drift(oneOf(5) ? some(1, 60) : some(1, 6)); break;
+            case 12: pair.undo(); break;
+            case 13: pair.seed(random.nextInt()); break;
+            case 14: pair.at(aFloor(), aSide(), some(0, 999)); break;
+            case 15: pair.place(aCar(), some(0, 999)); break;
+            case 16: pair.comes(aDay(), aFloor(), aSide()); break;
+            case 17: pair.soonest(aPerson(), aFloor(), aDay(), some(0, 1)); break;
+            case 18: pair.never(aPerson(), aDay()); break;
+            case 19: pair.meet(aPerson(), aPerson(), some(0, 2)); break;
+            case 20: pair.heaviest(some(0, 1)); break;
+            case 21: pair.changed(aPerson(), aFloor(), aDay(), some(0, 1)); break;
+            default: callOfSheets(kind); break;
         }
     }
 
-    private void doing(int which) {
-        int a;
-        int b;
-        switch (which) {
-            case 0: case 1: {
-                a = some(0, 4); b = some(1, 9); int f = aFloor(); int d = some(0, 6);
-                same("person(" + a + "," + b + "," + f + "," + d + ")", x.person(a, b, f, d), m.person(a, b, f, d));
-                break;
-            }
-            case 2: a = aCar(); b = some(0, 6); same("day(" + a + "," + b + ")", x.day(a, b), m.day(a, b)); break;
-            case 3: a = some(0, 1); b = some(1, 30); same("rule(" + a + "," + b + ")", x.rule(a, b), m.rule(a, b)); break;
-            case 4: if (random.nextInt(4) == 0) { text = anyText(); } break;
-            case 5: a = some(32, 126); same("type(" + a + ")", x.type(a), m.type(a)); break;
-            case 6: if (random.nextInt(4) == 0) { same("block()", x.block(), m.block()); } break;
-            case 7: case 8: case 9: case 10: case 11: case 12:
-                a = aPerson(); b = some(0, 1); same("in(" + a + "," + b + ")", x.in(a, b), m.in(a, b)); break;
-            case 13: case 14: case 15:
-                a = aPerson(); same("out(" + a + ")", x.out(a), m.out(a)); break;
-            case 16: case 17: case 18: case 19: case 20:
-                a = random.nextInt(5) == 0 ? some(1, 60) : some(1, 4); same("steps(" + a + ")", x.steps(a), m.steps(a)); break;
-            case 21: case 22:
-                a = random.nextInt(5) == 0 ? some(1, 60) : some(1, 6); same("drift(" + a + ")", x.drift(a), m.drift(a)); break;
-            case 23: case 24: same("undo()", x.undo(), m.undo()); break;
-            case 25: a = random.nextInt(); same("seed(" + a + ")", x.seed(a), m.seed(a)); break;
-            case 26: if (random.nextInt(3) == 0) { same("image()", x.image(), m.image()); } break;
-            default: if (random.nextInt(3) == 0) { same("restore()", x.restore(), m.restore()); } break;
-        }
-    }
-
-    private void looking(int which) {
-        int a;
-        int b;
-        int c;
-        switch (which) {
-            case 0: case 1: case 2: case 3:
-                a = aPerson(); b = some(0, 5); same("of(" + a + "," + b + ")", x.of(a, b), m.of(a, b)); break;
-            case 4: case 5: case 6:
-                a = aCar(); b = some(0, 5); same("car(" + a + "," + b + ")", x.car(a, b), m.car(a, b)); break;
-            case 7: case 8: case 9:
-                a = some(0, 8); same("count(" + a + ")", x.count(a), m.count(a)); break;
-            case 10:
-                a = aFloor(); b = some(0, 1); c = some(0, 999);
-                same("at(" + a + "," + b + "," + c + ")", x.at(a, b, c), m.at(a, b, c)); break;
-            case 11: a = aCar(); b = some(0, 999); same("place(" + a + "," + b + ")", x.place(a, b), m.place(a, b)); break;
-            case 12: case 13:
-                a = some(0, 6); b = aFloor(); c = some(0, 1);
-                same("comes(" + a + "," + b + "," + c + ")", x.comes(a, b, c), m.comes(a, b, c)); break;
-            case 14: a = some(0, 1); same("heaviest(" + a + ")", x.heaviest(a), m.heaviest(a)); break;
-            case 15: a = some(0, 30); b = some(0, 100); same("goes(" + a + "," + b + ")", x.goes(a, b), m.goes(a, b)); break;
-            default: sheets(which - 16); break;
-        }
-    }
-
-    private void sheets(int which) {
-        int s = some(0, 3);
-        int lane = some(0, 3) & (random.nextInt(3) == 0 ? -1 : 1);
-        int i = some(0, random.nextInt(3) == 0 ? 23 : 4);
-        int n = some(1, 4);
-        switch (which) {
-            case 0: {
-                n = random.nextInt(3) == 0 ? some(0, 24) : some(4, 24);
-                same("sheet(" + s + "," + lane + "," + n + ")", x.sheet(s, lane, n), m.sheet(s, lane, n));
-                break;
-            }
-            case 1: if (random.nextInt(4) == 0) { same("drop(" + s + ")", x.drop(s), m.drop(s)); } break;
-            case 2: case 3: {
-                long v = random.nextInt(4) == 0 ? random.nextLong() : some(0, 20);
-                same("item(" + s + "," + lane + "," + i + "," + v + ")", x.item(s, lane, i, v), m.item(s, lane, i, v));
-                break;
-            }
-            case 4: {
-                int to = some(0, 3);
-                int j = some(0, 6);
-                n = some(0, 8);
-                same("copy(" + s + "," + i + "," + to + "," + j + "," + n + ")", x.copy(s, i, to, j, n), m.copy(s, i, to, j, n));
-                break;
-            }
-            case 5: {
-                int floor = aFloor();
-                int side = some(0, 1);
-                n = some(1, 24);
-                same("film(" + floor + "," + side + "," + n + "," + s + "," + lane + "," + i + ")",
-                    x.film(floor, side, n, s, lane, i), m.film(floor, side, n, s, lane, i));
-                break;
-            }
-            default: {
-                int what = some(0, 1);
-                same("weighed(" + s + "," + lane + "," + i + "," + n + "," + what + ")",
-                    x.weighed(s, lane, i, n, what), m.weighed(s, lane, i, n, what));
-                break;
-            }
-        }
-    }
-
-    private void foretelling(int which) {
-        int p = aPerson();
-        int floor = aFloor();
-        int day = some(0, 6);
-        int what = some(0, 1);
-        String rest = "(" + p + "," + floor + "," + day + "," + what + ")";
-        switch (which) {
-            case 0: case 1: case 2:
-                same("soonest" + rest, x.soonest(p, floor, day, what), m.soonest(p, floor, day, what)); break;
-            case 3: same("never(" + p + "," + day + ")", x.never(p, day), m.never(p, day)); break;
-            case 4: case 5: {
-                int other = aPerson();
-                what = some(0, 2);
-                same("meet(" + p + "," + other + "," + what + ")", x.meet(p, other, what), m.meet(p, other, what));
-                break;
-            }
-            default: same("changed" + rest, x.changed(p, floor, day, what), m.changed(p, floor, day, what)); break;
+    private void callOfSheets(int kind) {
+        switch (kind) {
+            case 22: pair.goes(some(0, 30), some(0, 100)); break;
+            case 23: pair.image(); break;
+            case 24: pair.restore(); break;
+            case 25: pair.weighed(aSheet(), aLane(), anItem(), some(1, 4), some(0, 1)); break;
+            case 26: pair.film(aFloor(), aSide(), some(1, 24), aSheet(), aLane(), anItem()); break;
+            case 27: pair.sheet(aSheet(), aLane(), oneOf(3) ? some(0, 24) : some(4, 24)); break;
+            case 28: pair.drop(aSheet()); break;
+            case 29: pair.item(aSheet(), aLane(), anItem(), oneOf(4) ? random.nextLong() : some(0, 20)); break;
+            default: pair.copy(aSheet(), anItem(), aSheet(), some(0, 6), some(0, 8)); break;
         }
     }
 }
